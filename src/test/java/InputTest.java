@@ -1,0 +1,97 @@
+/** Promises 1 to 6: a new object, the input buffer, and what parseSetup answers and leaves. */
+final class InputTest {
+    public static void main(String[] args) {
+        newObject();
+        append();
+        parseSetup();
+        parseErrors();
+        Check.end("InputTest");
+    }
+
+    private static void newObject() {
+        CardLoom x = new CardLoom();
+        Check.same("1: an empty buffer", x.bufferLength(), 0);
+        Check.same("1: no error code", x.parseErrorCode(), 0);
+        Check.same("1: no error position", x.parseErrorPosition(), CardLoom.NONE);
+        Check.same("1: nothing to undo", x.undoCount(), 0);
+        Check.fails("1: no setup", Check.STATE, x::rowCount);
+        Check.fails("1: no output", Check.INDEX, () -> x.outputByte(0));
+    }
+
+    private static void append() {
+        CardLoom x = new CardLoom();
+        for (int n = 1; n <= 25; n++) {
+            Check.same("2: append " + n, x.append(0x20202020, 0, -1, 0x80ff0001, n), n * 20);
+        }
+        Check.same("2: a 26th append", x.append(1, 2, 3, 4, 5), CardLoom.NONE);
+        Check.same("2, 6: a full buffer", x.bufferLength(), 500);
+
+        CardLoom order = new CardLoom();
+        // "loom", " 2 9", ";war", "p b ", "1;  ", and nothing behind byte 17.
+        Check.same("2: bytes in order",
+                order.append(0x6c6f6f6d, 0x20322039, 0x3b776172, 0x70206220, 0x313b2020), 20);
+        Check.same("3: a setup without picks", order.parseSetup(17), 0);
+        Check.same("2: last bytes", order.warpHarness(0), 1);
+
+        CardLoom high = new CardLoom();
+        high.append(0x6c6f6f6d, 0xa0322039, 0, 0, 0);
+        Check.fails("2: a byte above 127", Check.ARGUMENT, () -> high.parseSetup(8));
+        Check.same("2: its error", high.parseErrorCode() * 100 + high.parseErrorPosition(), 104);
+    }
+
+    private static void parseSetup() {
+        CardLoom x = new CardLoom();
+        Given.append(x, Given.SAMPLE);
+        int length = x.bufferLength();
+        Check.fails("3: a negative length", Check.INDEX, () -> x.parseSetup(-1));
+        Check.fails("3: a length over the buffer's", Check.INDEX, () -> x.parseSetup(length + 1));
+        Check.same("3: the buffer stays", x.bufferLength(), length);
+        Check.same("3: picks", x.parseSetup(length), 11);
+        Check.same("3, 6: the buffer is empty", x.bufferLength(), 0);
+
+        x.weave(2);
+        x.saveState(1);
+        Given.append(x, "loom 2 9;warp a 0;warp h 1");
+        Check.fails("3: an invalid setup", Check.ARGUMENT, () -> x.parseSetup(26));
+        Check.same("3: the buffer is empty, too", x.bufferLength(), 0);
+        Check.same("3: the loom stays", x.harnessCount() * 100 + x.warpCount() * 10 + x.rowCount(), 482);
+        Check.same("3: the deck stays", Given.picks(x), "0 1 0 2 0 2 0 1 2 1 0");
+        Check.same("3: the history stays", x.undoCount(), 1);
+        Check.same("3: saved states stay", x.restoreState(1), 2);
+        Check.same("4: error code", x.parseErrorCode(), CardLoom.SYNTAX_ERROR);
+        Check.same("5: error position", x.parseErrorPosition(), 23);
+        Check.fails("3: index first", Check.INDEX, () -> x.parseSetup(1));
+        Check.same("4: the latest error stays", x.parseErrorCode(), CardLoom.SYNTAX_ERROR);
+        Check.same("5: its position stays", x.parseErrorPosition(), 23);
+
+        x.weave(1);
+        x.saveState(0);
+        Check.same("3: another setup", Given.parse(x, "loom 3 7;warp b 2"), 0);
+        Check.same("4: no error", x.parseErrorCode(), 0);
+        Check.same("5: no position", x.parseErrorPosition(), CardLoom.NONE);
+        Check.same("3: the new loom", x.harnessCount() * 100 + x.warpCount() * 10 + x.rowCount(), 310);
+        Check.same("3: no cards are left", x.cardCount(), 0);
+        Check.same("3: no parts are left", Given.deck(x), "-");
+        Check.same("3: no yarn is left", x.yarn(2) + x.yarn(3), 0);
+        Check.same("3: no wear is left", x.wear(0) + x.wear(1) + x.wear(2), 0);
+        Check.same("3: nothing is lifted", x.isLifted(0) || x.isLifted(1) || x.isLifted(2), false);
+        Check.same("3: the history is cleared", x.undoCount(), 0);
+        Check.fails("3: slot 0 is cleared", Check.STATE, () -> x.restoreState(0));
+        Check.fails("3: slot 1 is cleared", Check.STATE, () -> x.restoreState(1));
+
+        CardLoom part = new CardLoom();
+        Given.append(part, "loom 2 9;warp a 0 1;!!");
+        Check.same("3: only the first bytes", part.parseSetup(19), 0);
+        Check.same("3: a token cut off by the length", part.warpCount(), 2);
+    }
+
+    private static void parseErrors() {
+        CardLoom x = new CardLoom();
+        Check.fails("3: an empty setup", Check.ARGUMENT, () -> x.parseSetup(0));
+        Check.same("4: of an empty setup", x.parseErrorCode(), 1);
+        Check.same("5: of an empty setup", x.parseErrorPosition(), 0);
+        Check.fails("3: no loom yet", Check.STATE, x::harnessCount);
+        Check.same("constants", CardLoom.NONE + "," + CardLoom.SYNTAX_ERROR + "," + CardLoom.RANGE_ERROR + ","
+                + CardLoom.CONFLICT_ERROR + "," + CardLoom.LIMIT_ERROR, "-1,1,2,3,4");
+    }
+}
