@@ -103,6 +103,9 @@ final class ChangeTest {
         Check.same("61: that one", x.isBroken(0) + "," + x.isBroken(2), "true,false");
         Check.same("61: the other", x.mend(0), 0);
         Check.fails("61: again", Check.ARGUMENT, () -> x.mend(0));
+        CardLoom both = Given.loom("loom 3 1;warp a 0;card b 0 1;deck 0;yarn b 9;weave 1");
+        both.oil(1);
+        Check.same("60: that one alone", both.isStuck(0) + "," + both.isStuck(1) + "," + both.isStuck(2), "true,false,false");
         CardLoom up = Given.loom("loom 2 1;warp a 0;card b 0;deck 0;yarn b 9;weave 1");
         up.oil(0);
         Check.same("60: it stays lifted", up.isLifted(0), true);

@@ -64,6 +64,8 @@ final class ClothTest {
         CardLoom x = Given.loom("loom 3 99;warp a 0 1 2 2;card b 0;card b 1;card b 0 1;deck 2 0 1 2 2 2 0;yarn b 99;weave 7");
         Check.same("32: of the end", x.longestWarpFloat(0), 4);
         Check.same("32: of the middle", x.longestWarpFloat(1), 4);
+        Check.same("32: of the start", Given.loom(
+                "loom 2 99;warp a 0;card b 0;card b;deck 0 0 1 0;yarn b 9;weave 4").longestWarpFloat(0), 2);
         Check.same("32: none", x.longestWarpFloat(2), 0);
         Check.same("32: without rows", Given.loom(Given.SAMPLE).longestWarpFloat(0), 0);
         Check.same("33: behind", x.longestWeftFloat(0), 2);
@@ -105,6 +107,8 @@ final class ClothTest {
         Check.same("35: need not divide", periodOf("0 1 1", 7), 3);
         Check.same("35: no smaller", periodOf("0 0 0 1", 4), 4);
         Check.same("35: all but the first", periodOf("1 0 0 1", 4), 3);
+        Check.same("35: the first warp", Given.loom("loom 2 99;warp a 0 1;card b 0;card b;deck 0 1;yarn b 9;weave 3")
+                .rowPeriod(), 2);
         Check.same("35: the most rows", periodOf("0 1 3", 60), 3);
     }
 
@@ -114,6 +118,9 @@ final class ClothTest {
         x.weave(3);
         Check.same("36", x.warpShare(), 2.0f / 9.0f);
         Check.same("36: all", Given.loom("loom 2 9;warp a 0;card b 0;deck 0;yarn b 9;weave 3").warpShare(), 1.0f);
+        CardLoom one = Given.loom("loom 2 9;warp a 0;card b 0 1;deck 0;yarn b 9;weave 1");
+        Check.same("36: one cell", one.warpShare(), 1.0f);
+        Check.same("37: one card", one.averageLifts(), 2.0);
         Check.same("37", x.averageLifts(), 4.0 / 3.0);
         x.punch(1, 1);
         Check.same("37: after a change", x.averageLifts(), 5.0 / 3.0);

@@ -4,6 +4,7 @@ final class InputTest {
         newObject();
         append();
         parseSetup();
+        nothingIsLeftOfEarlierSetups();
         parseErrors();
         Check.end("InputTest");
     }
@@ -82,7 +83,37 @@ final class InputTest {
         CardLoom part = new CardLoom();
         Given.append(part, "loom 2 9;warp a 0 1;!!");
         Check.same("3: only the first bytes", part.parseSetup(19), 0);
-        Check.same("3: a token cut off by the length", part.warpCount(), 2);
+        Check.same("3: a token that ends with the length", part.warpCount(), 2);
+        Given.append(part, "loom 2 9;warp a 0 11");
+        Check.same("3: a number cut off by the length", part.parseSetup(19), 0);
+        Check.same("3: is what is left of it", part.warpHarness(1), 1);
+        Given.append(part, "loom 2 9;warp a 0;card ab");
+        Check.same("3: a word cut off by the length", part.parseSetup(24), 0);
+        Check.same("3: is what is left of it", part.cardCount() * 10 + part.cardColour(0), 10);
+    }
+
+    private static void nothingIsLeftOfEarlierSetups() {
+        String rich = "loom 8 1;warp f 7 7 0;card a 0 1 2 3 4 5 6 7;card b;deck 0 back(1 mirror(0));strain 1;"
+                + "motor 3;yarn a 99;yarn b 99;weave 3;swap 0 1";
+        CardLoom x = new CardLoom();
+        Given.parse(x, rich);
+        for (int n = 1; n <= 4; n++) {
+            if (n == 3) {
+                Check.fails("3: the rich setup, spoilt at its end", Check.ARGUMENT, () -> Given.parse(x, rich + ";oil 8"));
+            }
+            String what = "3: setup " + n + " ";
+            Check.same(what, Given.parse(x, "loom 2 2;warp a 0 1;warp b 0 1"), 0);
+            Check.same(what + "harnesses", x.harnessCount(), 2);
+            Check.same(what + "warps", x.warpCount() + "," + x.brokenCount(), "4,0");
+            Check.same(what + "cards", x.cardCount(), 0);
+            Check.same(what + "deck", Given.deck(x) + "," + x.deckLength() + "," + x.deckDepth(), "-,0,0");
+            Check.same(what + "rows", x.rowCount(), 0);
+            Check.same(what + "harness", x.isLifted(0) + "," + x.wear(0) + "," + x.isStuck(0), "false,0,false");
+            Check.same(what + "yarn", x.yarn(0) + "," + x.yarn(1), "0,0");
+            Check.same(what + "invariants", x.imbalance(), 0);
+            String same = "loom 2 9;warp a 0 0 1 1;card a 0 1;deck 0;yarn a 8;weave 2";
+            Check.same(what + "of its own motor and strain", Given.parse(x, same) + "," + x.brokenCount(), "1,0");
+        }
     }
 
     private static void parseErrors() {

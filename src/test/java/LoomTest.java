@@ -106,6 +106,8 @@ final class LoomTest {
         Check.same("13: still two", y.brokenCount(), 2);
         y.unweave(4);
         Check.same("4: removing rows leaves broken warps", y.brokenCount(), 2);
+        CardLoom later = Given.loom("loom 2 99;warp a 0 1;card b 0;card b 1;deck 0 0 1 1;yarn b 99;strain 2;weave 4");
+        Check.same("12: one warp after the other", later.isBroken(0) + "," + later.isBroken(1), "true,true");
         CardLoom first = Given.loom("loom 2 99;warp a 0;card b 0;deck 0;yarn b 99;strain 1;weave 1");
         Check.same("12: the strain limit 1", first.isBroken(0) + Given.row(first, 0), "trueA");
     }

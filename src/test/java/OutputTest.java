@@ -37,7 +37,9 @@ final class OutputTest {
     private static void outputBytes() {
         CardLoom x = Given.loom(Given.SAMPLE + ";weave 2");
         Check.fails("53: before the first output", Check.INDEX, () -> x.outputByte(0));
+        x.writeRow(0);
         int length = x.writeDeck();
+        Check.same("52: replaces the output", Given.output(x, length), "0 1 r2(0 2) m(0 1 2)");
         Check.same("53: last byte", x.outputByte(length - 1), (int) ')');
         Check.fails("53: behind", Check.INDEX, () -> x.outputByte(length));
         Check.fails("53: before", Check.INDEX, () -> x.outputByte(-1));

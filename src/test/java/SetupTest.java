@@ -53,6 +53,9 @@ final class SetupTest {
         error(1, "loom 2 9;", "warpa 0");
         error(1, "loom 2 9;", "wa rp a 0");
         error(1, "loom 2 9;", "war");
+        error(1, "loom 2 9;", "harp a 0");
+        error(1, "", "room 2 9");
+        error(1, "", "loomz 2 9");
         error(1, "loom 2 9;", "warps a 0");
         error(1, "loom ", "-2 9");
     }
@@ -87,6 +90,7 @@ final class SetupTest {
         error(1, "loom 2 9;warp ", "ab 0");
         error(1, "loom 2 9;warp ", "0");
         error(1, "loom 2 9;warp a", "");
+        error(1, W + "warp", "");
         error(1, "loom 2 9;warp a ", ";");
         error(1, "loom 2 9;warp a ", "a");
         error(1, "loom 2 9;warp a 0 ", "b 1");
@@ -140,6 +144,7 @@ final class SetupTest {
         error(1, C + "deck back(", "");
         error(1, C + "deck back(", ")");
         error(1, C + "deck back(", ";");
+        error(1, C + "deck 0 back(", ")");
         error(1, C + "deck back(0", "");
         error(1, C + "deck back(0", ";deck 0");
         error(1, C + "deck back(0)", ")");
@@ -155,6 +160,7 @@ final class SetupTest {
         error(2, C + "deck 0 back(1 ", "2)");
         error(2, W + "deck ", "0");
         error(3, R, "deck 0");
+        error(3, R + "unweave 1;", "deck 0");
         valid(R + "unweave 2;deck 0", 3);
     }
 
@@ -194,6 +200,7 @@ final class SetupTest {
         valid(W + "yarn a 1;yarn f 999;yarn a 999", 0);
         error(1, W + "yarn ", "g 1");
         error(1, W + "yarn a", "");
+        error(1, W + "yarn", "");
         error(1, W + "yarn a ", "a");
         error(2, W + "yarn a ", "0");
         error(1, W + "yarn a ", "1000");
@@ -244,6 +251,7 @@ final class SetupTest {
         error(1, C + "dye 0 ", "g");
         error(1, C + "dye 0 ", "0");
         error(1, C + "dye ", "a 0");
+        error(1, C + "dye 0", "");
 
         valid(C + "oil 0;oil 1", 0);
         error(2, C + "oil ", "2");

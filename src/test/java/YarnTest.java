@@ -47,6 +47,7 @@ final class YarnTest {
         Check.same("44: by the colours now", x.yarnNeeded(3) + "," + x.yarnNeeded(4), "0,16");
         Check.same("44: from the start again", Given.loom(Given.SAMPLE + ";weave 11").yarnNeeded(2), 64);
         Check.same("44: the last pick", Given.loom(Given.SAMPLE + ";weave 10").yarnNeeded(2), 8);
+        Check.same("44: one pick", Given.loom("loom 2 9;warp a 0 1;card b;deck 0").yarnNeeded(1), 2);
         Check.same("44: without picks", Given.loom("loom 2 9;warp a 0;card a").yarnNeeded(0), 0);
     }
 
