@@ -66,6 +66,9 @@ final class ClothTest {
         Check.same("32: of the middle", x.longestWarpFloat(1), 4);
         Check.same("32: of the start", Given.loom(
                 "loom 2 99;warp a 0;card b 0;card b;deck 0 0 1 0;yarn b 9;weave 4").longestWarpFloat(0), 2);
+        CardLoom shorter = Given.loom("loom 2 99;warp a 0;card b 0;deck 0;yarn b 9;weave 3;unweave 1");
+        Check.same("32: without removed rows", shorter.longestWarpFloat(0), 2);
+        Check.same("36: without removed rows", shorter.warpShare(), 1.0f);
         Check.same("32: none", x.longestWarpFloat(2), 0);
         Check.same("32: without rows", Given.loom(Given.SAMPLE).longestWarpFloat(0), 0);
         Check.same("33: behind", x.longestWeftFloat(0), 2);
@@ -183,6 +186,8 @@ final class ClothTest {
         Check.same("41, 42: unused cards", swap(Given.loom(four + "swap 2 3;weave 2")), "1 3");
         String late = four + "punch 0 0;punch 0 1;weave 1;card c 1;card b 0 1";
         Check.same("41, 42: the least first card", swap(Given.loom(late)), "0 1");
+        String one = "loom 2 9;warp b 0;card b 0;deck 0;yarn a 9;punch 0 0;dye 0 a;weave 1";
+        Check.same("41, 42: a card that does not exist", swap(Given.loom(one)), "-1 -1");
         CardLoom last = Given.loom("loom 2 99;warp a 0 1" + Given.repeated(";card b 0", 11)
                 + ";card c 1;deck 10 11;yarn b 9;yarn c 9;swap 10 11;weave 2");
         Check.same("41, 42: the last pair", swap(last), "10 11");

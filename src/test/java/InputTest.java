@@ -113,6 +113,10 @@ final class InputTest {
             Check.same(what + "invariants", x.imbalance(), 0);
             String same = "loom 2 9;warp a 0 0 1 1;card a 0 1;deck 0;yarn a 8;weave 2";
             Check.same(what + "of its own motor and strain", Given.parse(x, same) + "," + x.brokenCount(), "1,0");
+            Check.same(what + "of its own cards", x.averageLifts(), 2.0);
+            Check.fails(what + "spoilt in open brackets", Check.ARGUMENT, () -> Given.parse(x, same.replace("0;y", "back(0;y")));
+            Check.same(what + "whole again", Given.parse(x, same.replace("deck 0", "deck 0 back(0)")), 2);
+            Given.parse(x, same);
         }
     }
 

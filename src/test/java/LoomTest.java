@@ -130,6 +130,7 @@ final class LoomTest {
         x.setCardColour(3, 0);
         x.punch(4, 0);
         Check.same("22: after a change", x.oppositeCard(3), CardLoom.NONE);
+        Check.same("22: none lifts nothing", Given.loom("loom 2 1;warp a 0;card a 0 1").oppositeCard(0), CardLoom.NONE);
         Check.same("22: the first", Given.loom("loom 2 1;warp a 0;card a 0;card b 1;card a 1;card a 0").oppositeCard(3), 1);
         Check.same("20: broken warps count", brokenLift(), 1);
         for (int bad : new int[] {-1, 5, 12, Integer.MAX_VALUE, Integer.MIN_VALUE}) {
