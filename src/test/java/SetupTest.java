@@ -1,5 +1,5 @@
 /** Promises 3 to 5 with section 6 of the terms: tokens, grammar, ranges, conflicts and limits. */
-final class SetupTest {
+final class SetupTest extends Boundary {
     private static final String W = "loom 2 9;warp a 0 1;";
     private static final String C = W + "card a 0;card b 1;";
     /** Woven twice, with cards 0 and 1. */
@@ -16,25 +16,6 @@ final class SetupTest {
         changes();
         strainMotorMend();
         Check.end("SetupTest");
-    }
-
-    private static void valid(String setup, int picks) {
-        CardLoom x = new CardLoom();
-        int got;
-        try {
-            got = Given.parse(x, setup);
-        } catch (IllegalArgumentException e) {
-            got = -1000 * x.parseErrorCode() - x.parseErrorPosition();
-        }
-        Check.same("valid: " + setup, got, picks);
-    }
-
-    /** The error is at the last byte but those of the tail. */
-    private static void error(int code, String before, String tail) {
-        CardLoom x = new CardLoom();
-        Check.fails("invalid: " + before + tail, Check.ARGUMENT, () -> Given.parse(x, before + tail));
-        Check.same("code: " + before + tail, x.parseErrorCode(), code);
-        Check.same("position: " + before + tail, x.parseErrorPosition(), before.length());
     }
 
     private static void tokens() {
