@@ -400,6 +400,13 @@ final class ChangeBoundaryTest extends Boundary {
                 x.restoreState(1);
                 Check.same("the other one", Answers.ofTheLoom(x), changed);
             }
+            CardLoom x = loom(ONE);
+            for (int n = 1; n <= 8; n++) {
+                x.bringYarn(0, 1);
+                x.saveState(n % 2);
+                Check.same("saving leaves the changes to undo", x.undoCount(), n);
+            }
+            Check.same("they are undone", x.undo() + " " + x.yarn(0), "7 7");
         });
         Sentence.holds("A state that was saved there before is lost.", () -> {
             for (int slot = 0; slot <= 1; slot++) {

@@ -159,7 +159,10 @@ final class ClothBoundaryTest extends Boundary {
             Check.same("all but the last row", cloth("0 0 0 1", 4).rowPeriod(), 4);
             Check.same("the first and the last row alone", cloth("0 1 2 0", 4).rowPeriod(), 3);
             Check.same("equal colours of warp and weft", loom("loom 2 9;warp b 0;card b;card b 0;deck 0 1;yarn b 9;weave 9").rowPeriod(), 1);
-            Check.same("the first cell differs", cloth("0 2 0", 3).rowPeriod(), 2);
+            String first = "loom 2 9;warp a 0;warp b 1;card b;card b 0;deck 0 1 0;yarn b 99;weave 3";
+            Check.same("the first cell differs", loom(first).rowPeriod(), 2);
+            String hidden = "loom 2 9;warp a 0;warp b 1;card b 0 1;card c 0 1;deck 0 1;yarn b 99;yarn c 99;weave 4";
+            Check.same("wefts that no cell shows do not count", loom(hidden).rowPeriod(), 1);
             String last = "loom 2 9;warp a 0;warp b 1;card a;card a 1;deck 0 1 0;yarn a 99;weave 3";
             Check.same("the last cell differs", loom(last).rowPeriod(), 2);
         });
@@ -195,6 +198,8 @@ final class ClothBoundaryTest extends Boundary {
             Check.same("without rows again", loom(ONE + ";unweave 1").warpShare(), 0.0f);
             Check.same("none", cloth("0", 3).warpShare(), 0.0f);
             Check.same("all", cloth("1", 3).warpShare(), 1.0f);
+            Check.same("the only cell", loom(ONE).warpShare(), 1.0f);
+            Check.same("one of two cells", loom(ONE + ";weave 1").warpShare(), 0.5f);
             Check.same("one of many", cloth("2 0 0 0 0 0 0 0 0 0 0 0 0", 13).warpShare(), 1.0f / 52.0f);
             String seventh = "loom 7 9;warp a 0 1 2 3 4 5 6;card b 0;deck 0;yarn b 999;weave ";
             Check.same("in floats", loom(seventh + 60).warpShare(), 60.0f / 420.0f);

@@ -287,6 +287,13 @@ final class LoomBoundaryTest extends Boundary {
         Sentence.holds("Returns index of the card; NONE if there is none.", () -> {
             Check.same("all and nothing", loom(TWO_CARDS).oppositeCard(0) + " " + loom(TWO_CARDS).oppositeCard(1), "1 0");
             Check.same("one card", loom(LEAST + ";card a").oppositeCard(0), CardLoom.NONE);
+            Check.same("one card that lifts all", loom(LEAST + ";card a 0 1").oppositeCard(0), CardLoom.NONE);
+            for (int n = 1; n <= 12; n++) {
+                CardLoom x = loom(LEAST + Given.repeated(";card a;card b", 6));
+                Given.parse(x, LEAST + Given.repeated(";card a", 12));
+                Given.parse(x, LEAST + Given.repeated(";card f 0 1", n));
+                Check.same("none of " + n + " cards lifts nothing", x.oppositeCard(n - 1), CardLoom.NONE);
+            }
             Check.same("the last card", loom("loom 8 9;warp a 0;card a 0" + Given.repeated(";card a", 10)
                     + ";card b 1 2 3 4 5 6 7").oppositeCard(0), 11);
             Check.same("harnesses without warps count", loom("loom 3 9;warp a 0;card a 0;card a 1").oppositeCard(0), CardLoom.NONE);

@@ -71,7 +71,12 @@ final class OutputBoundaryTest extends Boundary {
             Check.same("one card", written("0"), "0");
             Check.same("neighbours", written("0 1 2"), "0 1 2");
             Check.same("the least brackets", written("repeat 1(0)mirror(1)back(2)"), "r1(0) m(1) b(2)");
+            for (int count = 1; count <= 20; count++) {
+                Check.same("count " + count, written("repeat " + count + "(0)"), "r" + count + "(0)");
+            }
             Check.same("the greatest count", written("repeat 020(0)"), "r20(0)");
+            String cards = LEAST + Given.repeated(";card a", 12);
+            Check.same("all indices", Given.deck(loom(cards + ";deck 0 1 2 3 4 5 6 7 8 9 10 11")), "0 1 2 3 4 5 6 7 8 9 10 11");
             Check.same("counts of one and two digits", written("repeat 9(0)repeat 10(1)"), "r9(0) r10(1)");
             Check.same("brackets in brackets", written("back(mirror(repeat 2(0)))"), "b(m(r2(0)))");
             Check.same("spaces between neighbours alone", written("back(back(0 1)2 back(0)back(1))0"), "b(b(0 1) 2 b(0) b(1)) 0");

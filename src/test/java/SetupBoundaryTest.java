@@ -78,7 +78,16 @@ final class SetupBoundaryTest extends Boundary {
         error(1, "loom 2 9", "/;warp a 0");
         error(1, "loom 2 9", ":;warp a 0");
         error(1, "loom 2", ".9;warp a 0");
-        error(1, "loom 2 9;", "warpa 0");
+        for (char letter = 'a'; letter <= 'z'; letter++) {
+            error(1, "", "loom" + letter + "2 9;warp a 0");
+            error(1, BROKEN, "mend" + letter + "0");
+            error(1, BROKEN, letter + "mend 0");
+            error(1, CARDS + "deck 0 ", "back" + letter + "(0)");
+        }
+        for (char digit = '0'; digit <= '9'; digit++) {
+            valid(TWO + "yarn a1" + digit, 0);
+            valid(TWO + "yarn a" + digit + "1", 0);
+        }
         error(1, TWO + "card a;deck 0 ", "mirrorback(0)");
         error(1, "loom 2 9;warp a 01", "b");
         error(2, "loom 2 9;warp a ", "02b");

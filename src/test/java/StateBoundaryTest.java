@@ -196,6 +196,8 @@ final class StateBoundaryTest extends Boundary {
         saved.saveState(0);
         Check.same("saving is none of them", saved.undoCount(), 0);
         saved.weave(1);
+        saved.saveState(1);
+        Check.same("saving ends none of them", saved.undoCount(), 1);
         saved.undo();
         Check.same("undoing is none of them", saved.undoCount(), 0);
         saved.writeRow(0);

@@ -534,6 +534,11 @@ final class TermsBoundaryTest extends Boundary {
             Check.same("no wrong rows", swap(loom(cards + "weave 9")), "-1 -1");
             Check.same("wrong rows that no pair explains", swap(loom(cards + "punch 0 1;weave 1")), "-1 -1");
             Check.same("one card", swap(loom("loom 2 9;warp a 0;card b 0;deck 0;yarn b 9;invert 0;weave 1")), "-1 -1");
+            for (int n = 1; n <= 12; n++) {
+                String none = "loom 2 9;warp b 0" + Given.repeated(";card c 0", n) + ";yarn a 9;deck " + (n - 1);
+                CardLoom x = loom(none + ";invert " + (n - 1) + ";dye " + (n - 1) + " a;weave 1");
+                Check.same("no card of " + n + " explains it, and one that is not there is none of them", swap(x), "-1 -1");
+            }
             Check.same("no cards", swap(loom(LEAST)), "-1 -1");
         });
     }
