@@ -5,7 +5,8 @@ final class Answers {
 
     static String of(CardLoom x) {
         StringBuilder text = new StringBuilder();
-        add(text, "buffer", x.bufferLength(), "error", x.parseErrorCode(), x.parseErrorPosition(), "undo", x.undoCount());
+        add(text, "buffer", x.bufferLength(), "error", x.parseErrorCode(), x.parseErrorPosition(), "undo",
+                x.undoCount());
         text.append(outputOf(x));
         int harnesses;
         try {
@@ -25,7 +26,8 @@ final class Answers {
         for (int i = 0; i < 6; i++) {
             add(text, "\ncolour", i, x.cellsOfColour(i), x.yarn(i), x.yarnNeeded(i));
         }
-        add(text, "\npredicted", x.nextCard(), x.weaveObstacle(), x.picksPossible(), x.picksUntilStuck(), x.imbalance());
+        add(text, "\npredicted", x.nextCard(), x.weaveObstacle(), x.picksPossible(), x.picksUntilStuck(),
+                x.imbalance());
         return text.toString();
     }
 
@@ -56,7 +58,8 @@ final class Answers {
     private static void addCards(StringBuilder text, CardLoom x, int harnesses) {
         add(text, "\ncards", x.cardCount(), x.averageLifts());
         for (int i = 0; i < x.cardCount(); i++) {
-            add(text, "\ncard", i, x.cardColour(i), x.liftedWarps(i), x.oppositeCard(i), x.cardUses(i), x.liftDistance(i, 0));
+            add(text, "\ncard", i, x.cardColour(i), x.liftedWarps(i), x.oppositeCard(i), x.cardUses(i),
+                    x.liftDistance(i, 0));
             for (int k = 0; k < harnesses; k++) {
                 add(text, x.lifts(i, k));
             }
@@ -68,7 +71,8 @@ final class Answers {
     }
 
     private static void addCloth(StringBuilder text, CardLoom x) {
-        add(text, "\ncloth", x.rowCount(), x.brokenCount(), x.rowPeriod(), x.warpShare(), x.wrongCount(), x.firstWrongRow(),
+        add(text, "\ncloth", x.rowCount(), x.brokenCount(), x.rowPeriod(), x.warpShare(), x.wrongCount(),
+                x.firstWrongRow(),
                 x.swapFirst(), x.swapSecond());
         for (int row = 0; row < x.rowCount(); row++) {
             add(text, "\nrow", row, x.isWrong(row), x.longestWeftFloat(row));

@@ -22,7 +22,8 @@ abstract class Boundary {
             + "card e 0 1 2 3 4 5 6 7;card f 7 0;deck repeat 8(0 1 2 3 4 5 6 7 8 9 10 11)0 1 2 3;"
             + "yarn a 300;yarn b 300;yarn c 300;yarn d 300;yarn e 300;yarn f 300;weave 60";
 
-    static final int[] FAR = {Integer.MIN_VALUE, -1000, -33, -32, -8, -2, -1, 2, 6, 8, 9, 12, 13, 24, 25, 31, 32, 33, 60,
+    static final int[] FAR = {Integer.MIN_VALUE, -1000, -33, -32, -8, -2, -1, 2, 6, 8, 9, 12, 13, 24, 25, 31, 32, 33,
+            60,
         61, 63, 64, 100, 101, 255, 256, 500, 1000, 65536, 1 << 30, Integer.MAX_VALUE - 1, Integer.MAX_VALUE};
 
     static CardLoom loom(String setup) {
@@ -84,7 +85,8 @@ abstract class Boundary {
         takes(setup, least, greatest, Check.ARGUMENT, call);
     }
 
-    private static void takes(String setup, int least, int greatest, Class<? extends RuntimeException> due, CallWith call) {
+    private static void takes(String setup, int least, int greatest, Class<? extends RuntimeException> due,
+            CallWith call) {
         for (int argument : FAR) {
             takesOrNot(setup, argument, least, greatest, due, call);
         }

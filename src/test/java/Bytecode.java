@@ -11,16 +11,20 @@ final class Bytecode {
     private static final int UTF8 = 1;
     private static final int LONG = 5;
     private static final int DOUBLE = 6;
-    private static final String[] ARRAY_TYPES = {"", "", "", "", "boolean", "char", "float", "double", "byte", "short", "int", "long"};
+    private static final String[] ARRAY_TYPES = {"", "", "", "", "boolean", "char", "float", "double", "byte", "short",
+            "int", "long"};
     /** How many bytes stand behind each of the opcodes 0 to 201; the two switches (-) are measured on their own. */
-    private static final String OPERANDS = "0".repeat(16) + "12122" + "11111" + "0".repeat(28) + "11111" + "0".repeat(73) + "2"
-            + "0".repeat(20) + "2".repeat(16) + "1--000000" + "2222222" + "44" + "212" + "00" + "22" + "00-3" + "22" + "44";
+    private static final String OPERANDS = "0".repeat(16) + "12122" + "11111" + "0".repeat(28) + "11111"
+            + "0".repeat(73) + "2"
+            + "0".repeat(20) + "2".repeat(16) + "1--000000" + "2222222" + "44" + "212" + "00" + "22" + "00-3" + "22"
+            + "44";
 
     private final DataInputStream in;
     private final Object[] constants;
     private final Map<String, List<String>> methods = new LinkedHashMap<>();
 
-    /** The methods of the class, by "name descriptor", each with its steps: "call ..", "new ..", "read array" and others. */
+    /** The methods of the class, by "name descriptor", each with its steps: "call ..", "new ..",
+            "read array" and others. */
     static Map<String, List<String>> methodsOf(Class<?> type) throws IOException {
         String file = type.getName() + ".class";
         try (InputStream bytes = type.getResourceAsStream(file)) {

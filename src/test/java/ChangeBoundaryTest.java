@@ -2,7 +2,8 @@
 final class ChangeBoundaryTest extends Boundary {
     private static final String CARDS = "loom 2 200;warp a 0 1;card b;card c 0;card d 0 1;yarn b 999;yarn c 999;yarn d 999;deck ";
     /** Warps 0 and 23 are broken; harness 0 is stuck. */
-    private static final String BROKEN = "loom 2 1;warp a 0" + Given.repeated(" 1", 22) + " 0;card b 0;deck 0;yarn b 99;strain 1;weave 1";
+    private static final String BROKEN = "loom 2 1;warp a 0" + Given.repeated(" 1", 22)
+            + " 0;card b 0;deck 0;yarn b 99;strain 1;weave 1";
 
     public static void main(String[] args) {
         weaving();
@@ -24,14 +25,18 @@ final class ChangeBoundaryTest extends Boundary {
         Sentence.holds("Weaves some picks, one after the other, until there is an obstacle.", () -> {
             CardLoom x = loom(CARDS + "0 1 2");
             x.weave(4);
-            Check.same("in the deck's order", Given.row(x, 0) + Given.row(x, 1) + Given.row(x, 2) + Given.row(x, 3), "bbAcAAbb");
+            Check.same("in the deck's order", Given.row(x, 0) + Given.row(x, 1) + Given.row(x, 2) + Given.row(x, 3),
+                    "bbAcAAbb");
             CardLoom little = loom("loom 2 9;warp a 0 1;card b;card c 0;deck 0 1;yarn b 9;yarn c 3");
-            Check.same("until the yarn is too little", little.weave(60) + " " + little.rowCount() + " " + little.weaveObstacle(), "3 3 3");
+            Check.same("until the yarn is too little",
+                    little.weave(60) + " " + little.rowCount() + " " + little.weaveObstacle(), "3 3 3");
             Check.same("no yarn is used for a pick that is not woven", little.yarn(1) + " " + little.yarn(2), "5 1");
             CardLoom weak = loom(CARDS + "0 1 2;motor 1");
-            Check.same("until the motor is too weak", weak.weave(60) + " " + weak.rowCount() + " " + weak.weaveObstacle(), "2 2 4");
+            Check.same("until the motor is too weak",
+                    weak.weave(60) + " " + weak.rowCount() + " " + weak.weaveObstacle(), "2 2 4");
             CardLoom full = loom(CARDS + "0;weave 58");
-            Check.same("until sixty rows", full.weave(60) + " " + full.rowCount() + " " + full.weaveObstacle(), "2 60 2");
+            Check.same("until sixty rows", full.weave(60) + " " + full.rowCount() + " " + full.weaveObstacle(),
+                    "2 60 2");
             Check.same("no picks", loom(LEAST).weave(60), 0);
         });
         Sentence.holds("picks: number of picks, 1 to 60", () -> {
@@ -115,7 +120,8 @@ final class ChangeBoundaryTest extends Boundary {
             most.swapCards(0, 10);
             Check.same("none and all", Given.card(most, 0) + " " + Given.card(most, 10), "oooooooo e ........ a");
         });
-        sentence("card: index of a card", () -> loom(MOST).swapCards(0, 1) + " " + loom(MOST).swapCards(11, 1), "18 17");
+        sentence("card: index of a card", () -> loom(MOST).swapCards(0, 1) + " " + loom(MOST).swapCards(11, 1),
+                "18 17");
         Sentence.holds("other: index of a card, which may be the same", () -> {
             CardLoom x = loom(ONE);
             String before = Answers.ofTheLoom(x);
@@ -170,7 +176,8 @@ final class ChangeBoundaryTest extends Boundary {
             x.punch(0, 7);
             Check.same("the first and the last", Given.card(x, 0), "o......o a");
         });
-        sentence("Returns true if the card lifts the harness afterwards.", () -> loom(ONE).punch(0, 1) + " " + loom(ONE).punch(0, 0),
+        sentence("Returns true if the card lifts the harness afterwards.",
+                () -> loom(ONE).punch(0, 1) + " " + loom(ONE).punch(0, 0),
                 "true false");
         needsSetupAndTakes((x, i) -> x.punch(i, i));
         Sentence.holds("Throws IndexOutOfBoundsException if there is no such card or harness", () -> {
@@ -190,7 +197,8 @@ final class ChangeBoundaryTest extends Boundary {
             x.setCardColour(2, 0);
             Check.same("of these alone", cards(x), ".. f,o. c,oo a,");
         });
-        sentence("card: index of a card", () -> loom(MOST).setCardColour(0, 3) + " " + loom(MOST).setCardColour(11, 3), "0 5");
+        sentence("card: index of a card", () -> loom(MOST).setCardColour(0, 3) + " " + loom(MOST).setCardColour(11, 3),
+                "0 5");
         Sentence.holds("colour: number of a colour, 0 to 5", () -> {
             for (int colour = 0; colour <= 5; colour++) {
                 CardLoom x = loom(CARDS + "0");
@@ -225,8 +233,10 @@ final class ChangeBoundaryTest extends Boundary {
             x.bringYarn(0, 7);
             Check.same("of this one alone", x.yarn(0) + " " + x.yarn(1) + " " + x.yarn(5), "7 999 0");
         });
-        sentence("colour: number of a colour, 0 to 5", () -> loom(ONE).bringYarn(0, 9) + " " + loom(ONE).bringYarn(5, 9), "9 9");
-        sentence("amount: the amount, 1 to 999", () -> loom(LEAST).bringYarn(3, 1) + " " + loom(LEAST).bringYarn(3, 999), "1 999");
+        sentence("colour: number of a colour, 0 to 5",
+                () -> loom(ONE).bringYarn(0, 9) + " " + loom(ONE).bringYarn(5, 9), "9 9");
+        sentence("amount: the amount, 1 to 999",
+                () -> loom(LEAST).bringYarn(3, 1) + " " + loom(LEAST).bringYarn(3, 999), "1 999");
         Sentence.holds("Returns the amount of yarn of the colour afterwards.", () -> {
             CardLoom x = loom(LEAST);
             for (int n = 1; n <= 450; n++) {
@@ -256,7 +266,8 @@ final class ChangeBoundaryTest extends Boundary {
                 CardLoom x = loom(all);
                 x.oil(oiled);
                 for (int harness = 0; harness < 8; harness++) {
-                    Check.same("harness " + harness, harness(x, harness), harness == oiled ? "true 0 false" : "true 1 true");
+                    Check.same("harness " + harness, harness(x, harness), harness == oiled
+                            ? "true 0 false" : "true 1 true");
                 }
                 x.weave(1);
                 Check.same("it moves again, to the wear limit", harness(x, oiled), "false 1 true");
@@ -266,7 +277,8 @@ final class ChangeBoundaryTest extends Boundary {
             worn.weave(2);
             Check.same("the wear begins anew", harness(worn, 0), "false 2 false");
         });
-        sentence("harness: index of a harness", () -> loom("loom 8 1;warp a 0;card b 0 7;deck 0;yarn b 9;weave 1").oil(0) + " "
+        sentence("harness: index of a harness",
+                () -> loom("loom 8 1;warp a 0;card b 0 7;deck 0;yarn b 9;weave 1").oil(0) + " "
                 + loom("loom 8 1;warp a 0;card b 0 7;deck 0;yarn b 9;weave 1").oil(7), "1 1");
         Sentence.holds("Returns the wear before.", () -> {
             Check.same("none", loom(LEAST).oil(0), 0);
@@ -294,7 +306,8 @@ final class ChangeBoundaryTest extends Boundary {
         sentence("warp: index of a warp", () -> loom(BROKEN).mend(0) + " " + loom(BROKEN).mend(23), "1 1");
         Sentence.holds("Returns the number of broken warps afterwards.", () -> {
             Check.same("none", loom(ONE).mend(0), 0);
-            CardLoom x = loom("loom 2 9;warp a" + Given.repeated(" 0", 24) + ";card b 0;deck 0;yarn b 99;strain 1;weave 1");
+            CardLoom x = loom("loom 2 9;warp a" + Given.repeated(" 0", 24)
+                    + ";card b 0;deck 0;yarn b 99;strain 1;weave 1");
             for (int warp = 0; warp < 24; warp++) {
                 Check.same("mended " + warp, x.mend(warp), 23 - warp);
             }
@@ -303,7 +316,8 @@ final class ChangeBoundaryTest extends Boundary {
         Sentence.holds("Throws IndexOutOfBoundsException if there is no such warp", () -> {
             takesIndices(ONE, 1, CardLoom::mend);
             takesIndices("loom 2 9;warp a 0 0 0;card b 0;deck 0;yarn b 99;strain 1;weave 1", 3, CardLoom::mend);
-            takesIndices("loom 2 9;warp a" + Given.repeated(" 0", 24) + ";card b 0;deck 0;yarn b 99;strain 1;weave 1", 24, CardLoom::mend);
+            takesIndices("loom 2 9;warp a" + Given.repeated(" 0", 24) + ";card b 0;deck 0;yarn b 99;strain 1;weave 1",
+                    24, CardLoom::mend);
         });
         Sentence.holds("Throws IllegalArgumentException if the warp is not broken", () -> {
             refused("never broken", loom(LEAST), Check.ARGUMENT, x -> x.mend(0));
@@ -424,7 +438,8 @@ final class ChangeBoundaryTest extends Boundary {
             }
         });
         sentence("slot: index of the slot, 0 or 1", () -> loom(ONE).saveState(0) + " " + loom(ONE).saveState(1), "1 1");
-        sentence("Returns the number of rows.", () -> loom(LEAST).saveState(0) + " " + loom(ONE).saveState(1) + " " + loom(MOST).saveState(0),
+        sentence("Returns the number of rows.",
+                () -> loom(LEAST).saveState(0) + " " + loom(ONE).saveState(1) + " " + loom(MOST).saveState(0),
                 "0 1 60");
         needsSetupAndTakes(CardLoom::saveState);
         Sentence.holds("Throws IndexOutOfBoundsException if there is no such slot", () -> {

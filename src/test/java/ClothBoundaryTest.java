@@ -51,8 +51,10 @@ final class ClothBoundaryTest extends Boundary {
 
         promise(30);
         sentence("Returns the colour of a cell of the cloth.", () -> cells(cloth("4", 1)), "0 0 5 0 ");
-        sentence("row: index of a row of the cloth", () -> loom(MOST).cellColour(0, 1) + " " + loom(MOST).cellColour(59, 1), "0 5");
-        sentence("warp: index of a warp", () -> cloth("2", 1).cellColour(0, 0) + " " + cloth("3", 1).cellColour(0, 3) + " "
+        sentence("row: index of a row of the cloth",
+                () -> loom(MOST).cellColour(0, 1) + " " + loom(MOST).cellColour(59, 1), "0 5");
+        sentence("warp: index of a warp",
+                () -> cloth("2", 1).cellColour(0, 0) + " " + cloth("3", 1).cellColour(0, 3) + " "
                 + cloth("2", 1).cellColour(0, 3), "0 5 3");
         Sentence.holds("Returns number of the colour.", () -> {
             CardLoom x = loom("loom 2 9;warp a 0;warp f 0;warp f 1;card f 0;card a 0;deck 0 1;yarn a 9;yarn f 9;weave 2");
@@ -67,11 +69,14 @@ final class ClothBoundaryTest extends Boundary {
             Check.same("lifted or not", x.showsWarp(1, 0) + " " + x.showsWarp(1, 1), "true false");
             Check.same("lifted, but broken", x.showsWarp(2, 0), false);
         });
-        sentence("row: index of a row of the cloth", () -> loom(MOST).showsWarp(0, 0) + " " + loom(MOST).showsWarp(1, 0) + " "
+        sentence("row: index of a row of the cloth",
+                () -> loom(MOST).showsWarp(0, 0) + " " + loom(MOST).showsWarp(1, 0) + " "
                 + loom(MOST).showsWarp(59, 0), "false true true");
-        sentence("warp: index of a warp", () -> cloth("2", 1).showsWarp(0, 0) + " " + cloth("2", 1).showsWarp(0, 3) + " "
+        sentence("warp: index of a warp",
+                () -> cloth("2", 1).showsWarp(0, 0) + " " + cloth("2", 1).showsWarp(0, 3) + " "
                 + cloth("3", 1).showsWarp(0, 3), "true false true");
-        sentence("Returns true if it shows the warp, false if", () -> cloth("1", 1).showsWarp(0, 0) + " " + cloth("0", 1).showsWarp(0, 0),
+        sentence("Returns true if it shows the warp, false if",
+                () -> cloth("1", 1).showsWarp(0, 0) + " " + cloth("0", 1).showsWarp(0, 0),
                 "true false");
         needsSetupAndTakes((x, i) -> x.showsWarp(i, i));
         noSuchRowOrWarp((x, row) -> x.showsWarp(row, 0), (x, warp) -> x.showsWarp(0, warp));
@@ -97,7 +102,8 @@ final class ClothBoundaryTest extends Boundary {
             Check.same("over the deck's end, but not around the cloth", cloth("2 0 2", 6).longestWarpFloat(0), 2);
             Check.same("two equal ones", cloth("2 2 0 2 2", 5).longestWarpFloat(0), 2);
         });
-        sentence("warp: index of a warp", () -> cloth("2 3 3", 3).longestWarpFloat(0) + " " + cloth("2 3 3", 3).longestWarpFloat(3), "1 2");
+        sentence("warp: index of a warp",
+                () -> cloth("2 3 3", 3).longestWarpFloat(0) + " " + cloth("2 3 3", 3).longestWarpFloat(3), "1 2");
         Sentence.holds("Returns the number of rows.", () -> {
             Check.same("without rows", loom(LEAST).longestWarpFloat(0), 0);
             Check.same("none", cloth("0", 5).longestWarpFloat(0), 0);
@@ -134,10 +140,12 @@ final class ClothBoundaryTest extends Boundary {
 
     private static void coloursAndPeriod() {
         promise(34);
-        sentence("Returns the number of cells of the cloth that have a colour.", () -> cloth("0 2 4", 3).cellsOfColour(0) + " "
+        sentence("Returns the number of cells of the cloth that have a colour.",
+                () -> cloth("0 2 4", 3).cellsOfColour(0) + " "
                 + cloth("0 2 4", 3).cellsOfColour(1) + " " + cloth("0 2 4", 3).cellsOfColour(3) + " "
                 + cloth("0 2 4", 3).cellsOfColour(5), "4 4 3 1");
-        sentence("colour: number of a colour, 0 to 5", () -> loom(MOST).cellsOfColour(0) + " " + loom(MOST).cellsOfColour(5),
+        sentence("colour: number of a colour, 0 to 5",
+                () -> loom(MOST).cellsOfColour(0) + " " + loom(MOST).cellsOfColour(5),
                 countColour(loom(MOST), 0) + " " + countColour(loom(MOST), 5));
         Sentence.holds("Returns the number of cells.", () -> {
             for (int colour = 0; colour < 6; colour++) {
@@ -158,7 +166,8 @@ final class ClothBoundaryTest extends Boundary {
             Check.same("all but the first row", cloth("1 0 0 0", 4).rowPeriod(), 4);
             Check.same("all but the last row", cloth("0 0 0 1", 4).rowPeriod(), 4);
             Check.same("the first and the last row alone", cloth("0 1 2 0", 4).rowPeriod(), 3);
-            Check.same("equal colours of warp and weft", loom("loom 2 9;warp b 0;card b;card b 0;deck 0 1;yarn b 9;weave 9").rowPeriod(), 1);
+            Check.same("equal colours of warp and weft",
+                    loom("loom 2 9;warp b 0;card b;card b 0;deck 0 1;yarn b 9;weave 9").rowPeriod(), 1);
             String first = "loom 2 9;warp a 0;warp b 1;card b;card b 0;deck 0 1 0;yarn b 99;weave 3";
             Check.same("the first cell differs", loom(first).rowPeriod(), 2);
             String hidden = "loom 2 9;warp a 0;warp b 1;card b 0 1;card c 0 1;deck 0 1;yarn b 99;yarn c 99;weave 4";
@@ -171,8 +180,10 @@ final class ClothBoundaryTest extends Boundary {
             Check.same("one row", cloth("0", 1).rowPeriod(), 1);
             Check.same("two rows", cloth("0 1", 2).rowPeriod(), 2);
             Check.same("two equal rows", cloth("0", 2).rowPeriod(), 1);
-            Check.same("sixty rows, the last is another", loom(CARDS + "repeat 20(0 0)repeat 19(0)1;weave 60").rowPeriod(), 60);
-            Check.same("sixty rows, the first is another", loom(CARDS + "1 repeat 20(0 0)repeat 19(0);weave 60").rowPeriod(), 60);
+            Check.same("sixty rows, the last is another",
+                    loom(CARDS + "repeat 20(0 0)repeat 19(0)1;weave 60").rowPeriod(), 60);
+            Check.same("sixty rows, the first is another",
+                    loom(CARDS + "1 repeat 20(0 0)repeat 19(0);weave 60").rowPeriod(), 60);
             Check.same("sixty equal rows", cloth("0", 60).rowPeriod(), 1);
             Check.same("two rows differ by 59", loom(CARDS + "1 repeat 20(0 0)repeat 18(0)1;weave 60").rowPeriod(), 59);
             Check.same("all rows are removed", loom(CARDS + "0 1;weave 9;unweave 9").rowPeriod(), 0);
@@ -192,7 +203,8 @@ final class ClothBoundaryTest extends Boundary {
 
     private static void shares() {
         promise(36);
-        sentence("Returns the share of the cells of the cloth that show the warp.", () -> cloth("2 4", 3).warpShare(), 4.0f / 12.0f);
+        sentence("Returns the share of the cells of the cloth that show the warp.", () -> cloth("2 4", 3).warpShare(),
+                4.0f / 12.0f);
         Sentence.holds("Returns the number of these cells, converted to float", () -> {
             Check.same("without rows", loom(LEAST).warpShare(), 0.0f);
             Check.same("without rows again", loom(ONE + ";unweave 1").warpShare(), 0.0f);
@@ -210,13 +222,15 @@ final class ClothBoundaryTest extends Boundary {
         needsSetupAnd(CardLoom::warpShare);
 
         promise(37);
-        sentence("Returns the average number of harnesses that a card lifts.", () -> loom(CARDS + "0").averageLifts(), 8.0 / 5.0);
+        sentence("Returns the average number of harnesses that a card lifts.", () -> loom(CARDS + "0").averageLifts(),
+                8.0 / 5.0);
         Sentence.holds("Returns the sum over all cards, converted to double", () -> {
             Check.same("without cards", loom(LEAST).averageLifts(), 0.0);
             Check.same("one card that lifts none", loom(LEAST + ";card a").averageLifts(), 0.0);
             Check.same("one card", loom(ONE).averageLifts(), 1.0);
             Check.same("three cards", loom(LEAST + ";card a;card a 0;card a").averageLifts(), 1.0 / 3.0);
-            Check.same("the most", loom("loom 8 9;warp a 0" + Given.repeated(";card a 0 1 2 3 4 5 6 7", 12)).averageLifts(), 8.0);
+            Check.same("the most",
+                    loom("loom 8 9;warp a 0" + Given.repeated(";card a 0 1 2 3 4 5 6 7", 12)).averageLifts(), 8.0);
             Check.same("twelve cards", loom(MOST).averageLifts(), 20.0 / 12.0);
             CardLoom x = loom(MOST);
             x.punch(11, 1);
@@ -233,18 +247,22 @@ final class ClothBoundaryTest extends Boundary {
             x.setCardColour(1, 1);
             x.weave(2);
             Check.same("right ones, a wrong weft, one that is hidden",
-                    x.isWrong(0) + " " + x.isWrong(1) + " " + x.isWrong(2) + " " + x.isWrong(3), "false false true false");
+                    x.isWrong(0) + " " + x.isWrong(1) + " " + x.isWrong(2) + " " + x.isWrong(3),
+                            "false false true false");
         });
-        sentence("row: index of a row of the cloth", () -> loom(CARDS + "0;dye 0 c;weave 1;dye 0 b;weave 58;invert 0;weave 1").isWrong(0)
+        sentence("row: index of a row of the cloth",
+                () -> loom(CARDS + "0;dye 0 c;weave 1;dye 0 b;weave 58;invert 0;weave 1").isWrong(0)
                 + " " + loom(CARDS + "0;dye 0 c;weave 1;dye 0 b;weave 58;invert 0;weave 1").isWrong(58) + " "
                 + loom(CARDS + "0;dye 0 c;weave 1;dye 0 b;weave 58;invert 0;weave 1").isWrong(59), "true false true");
-        sentence("Returns true if it is wrong.", () -> loom(ONE).isWrong(0) + " " + loom(CARDS + "0;invert 0;weave 1").isWrong(0),
+        sentence("Returns true if it is wrong.",
+                () -> loom(ONE).isWrong(0) + " " + loom(CARDS + "0;invert 0;weave 1").isWrong(0),
                 "false true");
         needsSetupAndTakes(CardLoom::isWrong);
         noSuchRow(CardLoom::isWrong);
 
         promise(39);
-        sentence("Returns the number of rows that are wrong.", () -> loom(CARDS + "0 1;weave 4;invert 1;weave 5").wrongCount(), 2);
+        sentence("Returns the number of rows that are wrong.",
+                () -> loom(CARDS + "0 1;weave 4;invert 1;weave 5").wrongCount(), 2);
         Sentence.holds("Returns the number of rows.", () -> {
             Check.same("without rows", loom(CARDS + "0;invert 0").wrongCount(), 0);
             Check.same("none", cloth("0 1 2 3 4", 60).wrongCount(), 0);
@@ -255,13 +273,15 @@ final class ClothBoundaryTest extends Boundary {
         needsSetupAnd(CardLoom::wrongCount);
 
         promise(40);
-        sentence("Returns the first row that is wrong.", () -> loom(CARDS + "0 1;weave 3;invert 0;weave 5").firstWrongRow(), 4);
+        sentence("Returns the first row that is wrong.",
+                () -> loom(CARDS + "0 1;weave 3;invert 0;weave 5").firstWrongRow(), 4);
         Sentence.holds("Returns index of the row; NONE if no row is wrong.", () -> {
             Check.same("without rows", loom(CARDS + "0;invert 0").firstWrongRow(), CardLoom.NONE);
             Check.same("none", cloth("0 1 2 3 4", 60).firstWrongRow(), CardLoom.NONE);
             Check.same("the first", loom(CARDS + "0;invert 0;weave 60").firstWrongRow(), 0);
             Check.same("the last", loom(CARDS + "0;weave 59;invert 0;weave 1").firstWrongRow(), 59);
-            Check.same("it is removed", loom(CARDS + "0;weave 59;invert 0;weave 1;unweave 1").firstWrongRow(), CardLoom.NONE);
+            Check.same("it is removed", loom(CARDS + "0;weave 59;invert 0;weave 1;unweave 1").firstWrongRow(),
+                    CardLoom.NONE);
         });
         needsSetupAnd(CardLoom::firstWrongRow);
     }
@@ -272,9 +292,11 @@ final class ClothBoundaryTest extends Boundary {
     }
 
     private static void suspectedSwap() {
-        String twelve = "loom 2 9;warp a 0" + Given.repeated(";card b", 10) + ";card c;card d;yarn c 9;yarn d 9;deck 10 11;swap 10 11;weave 2";
+        String twelve = "loom 2 9;warp a 0" + Given.repeated(";card b", 10)
+                + ";card c;card d;yarn c 9;yarn d 9;deck 10 11;swap 10 11;weave 2";
         promise(41);
-        sentence("Returns the first card of the suspected swap.", () -> loom(CARDS + "3 1;swap 3 1;weave 2").swapFirst(), 1);
+        sentence("Returns the first card of the suspected swap.",
+                () -> loom(CARDS + "3 1;swap 3 1;weave 2").swapFirst(), 1);
         Sentence.holds("Returns index of the card; NONE if there is no suspected swap.", () -> {
             Check.same("no rows", loom(CARDS + "0;swap 0 1").swapFirst(), CardLoom.NONE);
             Check.same("no cards", loom(LEAST).swapFirst(), CardLoom.NONE);
@@ -287,7 +309,8 @@ final class ClothBoundaryTest extends Boundary {
         needsSetupAnd(CardLoom::swapFirst);
 
         promise(42);
-        sentence("Returns the second card of the suspected swap.", () -> loom(CARDS + "3 1;swap 3 1;weave 2").swapSecond(), 3);
+        sentence("Returns the second card of the suspected swap.",
+                () -> loom(CARDS + "3 1;swap 3 1;weave 2").swapSecond(), 3);
         Sentence.holds("Returns index of the card; NONE if there is no suspected swap.", () -> {
             Check.same("no rows", loom(CARDS + "0;swap 0 1").swapSecond(), CardLoom.NONE);
             Check.same("no cards", loom(LEAST).swapSecond(), CardLoom.NONE);

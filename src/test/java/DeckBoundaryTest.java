@@ -16,7 +16,8 @@ final class DeckBoundaryTest extends Boundary {
 
     private static void picks() {
         promise(23);
-        sentence("Returns the number of picks of the deck.", () -> deck("0 repeat 3(0 mirror(0 1))back(1 2)").deckLength(), 15);
+        sentence("Returns the number of picks of the deck.",
+                () -> deck("0 repeat 3(0 mirror(0 1))back(1 2)").deckLength(), 15);
         Sentence.holds("Returns the number, 0 to 100.", () -> {
             Check.same("no cards", loom(LEAST).deckLength(), 0);
             Check.same("no parts", loom(CARDS).deckLength(), 0);
@@ -34,7 +35,8 @@ final class DeckBoundaryTest extends Boundary {
             x.swapCards(0, 1);
             Check.same("cards change, but not the deck", Given.picks(x), "2 0 1 0 1 1 2 1 0 1");
         });
-        sentence("pick: index of a pick of the deck", () -> loom(MOST).deckCard(0) + " " + loom(MOST).deckCard(99), "0 3");
+        sentence("pick: index of a pick of the deck", () -> loom(MOST).deckCard(0) + " " + loom(MOST).deckCard(99),
+                "0 3");
         sentence("Returns index of the card.", () -> loom(MOST).deckCard(0) + " " + loom(MOST).deckCard(11), "0 11");
         needsSetupAndTakes(CardLoom::deckCard);
         Sentence.holds("Throws IndexOutOfBoundsException if there is no such pick", () -> {
@@ -47,8 +49,10 @@ final class DeckBoundaryTest extends Boundary {
 
         promise(25);
         sentence("Returns how often a card occurs in the picks of the deck.",
-                () -> deck("0 repeat 3(0 1)mirror(0 1 1)").cardUses(0) + " " + deck("0 repeat 3(0 1)mirror(0 1 1)").cardUses(1), "6 6");
-        sentence("card: index of a card", () -> loom(MOST).cardUses(0) + " " + loom(MOST).cardUses(3) + " " + loom(MOST).cardUses(11),
+                () -> deck("0 repeat 3(0 1)mirror(0 1 1)").cardUses(0) + " "
+                        + deck("0 repeat 3(0 1)mirror(0 1 1)").cardUses(1), "6 6");
+        sentence("card: index of a card",
+                () -> loom(MOST).cardUses(0) + " " + loom(MOST).cardUses(3) + " " + loom(MOST).cardUses(11),
                 "9 9 8");
         Sentence.holds("Returns the number of picks.", () -> {
             Check.same("none", deck("0").cardUses(2), 0);
@@ -62,7 +66,8 @@ final class DeckBoundaryTest extends Boundary {
 
     private static void depth() {
         promise(26);
-        sentence("Returns how deeply the parts of the deck are nested.", () -> deck("0 back(0 mirror(1)0)0").deckDepth(), 3);
+        sentence("Returns how deeply the parts of the deck are nested.",
+                () -> deck("0 back(0 mirror(1)0)0").deckDepth(), 3);
         Sentence.holds("Returns 0 without parts; 1 if all parts are cards", () -> {
             Check.same("no parts", loom(CARDS).deckDepth(), 0);
             Check.same("no cards", loom(LEAST).deckDepth(), 0);
@@ -97,7 +102,8 @@ final class DeckBoundaryTest extends Boundary {
             Check.same("a half that fails at the end", deck("0 1 1 0 1 0").deckPeriod(), 6);
             Check.same("neither a half nor a third", deck("0 1 2 0 2 1").deckPeriod(), 6);
             Check.same("fifty", deck("repeat 2(repeat 7(0 1 1 2 2 1 1)0)").deckPeriod(), 50);
-            Check.same("by their cards, not by what they lift", loom(LEAST + ";card a;card a;deck 0 1").deckPeriod(), 2);
+            Check.same("by their cards, not by what they lift", loom(LEAST + ";card a;card a;deck 0 1").deckPeriod(),
+                    2);
         });
         Sentence.holds("Returns the period; 0 without picks.", () -> {
             Check.same("no picks", loom(CARDS).deckPeriod(), 0);
@@ -116,7 +122,8 @@ final class DeckBoundaryTest extends Boundary {
             Check.same("the inner ones differ", deck("0 1 2 0").isPalindrome(), false);
             Check.same("the middle one is alone", deck("0 1 2 1 0").isPalindrome(), true);
             Check.same("an even number", deck("0 1 1 0").isPalindrome(), true);
-            Check.same("by the cards, not by what they lift", loom(LEAST + ";card a;card a;deck 0 1").isPalindrome(), false);
+            Check.same("by the cards, not by what they lift", loom(LEAST + ";card a;card a;deck 0 1").isPalindrome(),
+                    false);
         });
         Sentence.holds("Returns true if they are the same (also without picks).", () -> {
             Check.same("no picks", loom(CARDS).isPalindrome(), true);
@@ -124,7 +131,8 @@ final class DeckBoundaryTest extends Boundary {
             Check.same("two equal picks", deck("1 1").isPalindrome(), true);
             Check.same("two picks", deck("1 0").isPalindrome(), false);
             Check.same("a hundred equal picks", deck("repeat 20(1 1 1 1 1)").isPalindrome(), true);
-            Check.same("a hundred picks, the last is another", deck("repeat 11(0 0 0 0 0 0 0 0 0)1").isPalindrome(), false);
+            Check.same("a hundred picks, the last is another", deck("repeat 11(0 0 0 0 0 0 0 0 0)1").isPalindrome(),
+                    false);
             Check.same("a mirror of 99", deck("mirror(repeat 10(0 1 2 2 1))").isPalindrome(), true);
         });
         needsSetupAnd(CardLoom::isPalindrome);

@@ -54,9 +54,11 @@ final class InputBoundaryTest extends Boundary {
             x.append(0x6c6f6f6d, 0x20382032, 0x30303b77, 0x61727020, 0x63203720);
             x.append(0x363b6361, 0x72642066, 0x20352034, 0x3b646563, 0x6b203020);
             Check.same("forty bytes", x.bufferLength() + " " + x.parseSetup(40), "40 1");
-            Check.same("in their order", x.warpHarness(0) + " " + x.warpHarness(1) + " " + Given.card(x, 0), "7 6 ....oo.. f");
+            Check.same("in their order", x.warpHarness(0) + " " + x.warpHarness(1) + " " + Given.card(x, 0),
+                    "7 6 ....oo.. f");
         });
-        String[] arguments = {"a: bytes 0 to 3", "b: bytes 4 to 7", "c: bytes 8 to 11", "d: bytes 12 to 15", "e: bytes 16 to 19"};
+        String[] arguments = {"a: bytes 0 to 3", "b: bytes 4 to 7", "c: bytes 8 to 11", "d: bytes 12 to 15",
+                "e: bytes 16 to 19"};
         for (int i = 0; i < 5; i++) {
             int index = i;
             Sentence.holds(arguments[i], () -> bytesOf(index));
@@ -69,7 +71,8 @@ final class InputBoundaryTest extends Boundary {
                 Check.same("the length", x.bufferLength(), 20 * n);
             }
             for (int n = 0; n < 3; n++) {
-                Check.same("one more", x.append(0x21212121, 0x21212121, 0x21212121, 0x21212121, 0x21212121), CardLoom.NONE);
+                Check.same("one more", x.append(0x21212121, 0x21212121, 0x21212121, 0x21212121, 0x21212121),
+                        CardLoom.NONE);
                 Check.same("nothing is appended", x.bufferLength(), 500);
             }
             Check.same("the bytes stay, the last of them, too", positionOfError(x), 499);
@@ -113,8 +116,10 @@ final class InputBoundaryTest extends Boundary {
         Sentence.holds("length: number of bytes to parse", () -> {
             String setup = "loom 2 9;warp a 0 01;card ab";
             CardLoom x = new CardLoom();
-            String[] due = {"1 0", "1 0", "1 0", "1 0", "1 4", "1 5", "1 6", "1 7", "4 8", "1 9", "1 9", "1 9", "1 9", "1 13", "1 14",
-                "1 15", "1 16", "0 -1", "0 -1", "0 -1", "0 -1", "1 21", "1 21", "1 21", "1 21", "1 25", "1 26", "0 -1", "1 26"};
+            String[] due = {"1 0", "1 0", "1 0", "1 0", "1 4", "1 5", "1 6", "1 7", "4 8", "1 9", "1 9", "1 9", "1 9",
+                    "1 13", "1 14",
+                "1 15", "1 16", "0 -1", "0 -1", "0 -1", "0 -1", "1 21", "1 21", "1 21", "1 21", "1 25", "1 26", "0 -1",
+                "1 26"};
             for (int length = 0; length < due.length; length++) {
                 Given.append(x, setup);
                 try {
@@ -176,8 +181,10 @@ final class InputBoundaryTest extends Boundary {
     }
 
     private static void invalidSetups() {
-        String[] invalid = {"", "loom", "loom 2 9", "loom 9 9", "loom 2 9;warp a 0 2", MOST + ";oil 8", MOST + ";warp a 0",
-            MOST + ";card a", ONE + ";unweave 2", ONE + ";mend 0;mend 0", ONE + ";unweave 1;deck back(0 back(0", Given.SAMPLE + ";"};
+        String[] invalid = {"", "loom", "loom 2 9", "loom 9 9", "loom 2 9;warp a 0 2", MOST + ";oil 8",
+                MOST + ";warp a 0",
+            MOST + ";card a", ONE + ";unweave 2", ONE + ";mend 0;mend 0", ONE + ";unweave 1;deck back(0 back(0",
+                    Given.SAMPLE + ";"};
         for (String before : new String[] {LEAST, ONE, MOST}) {
             CardLoom x = loom(before);
             x.writeDeck();
@@ -215,7 +222,8 @@ final class InputBoundaryTest extends Boundary {
         Sentence.in("Promise 4");
         Sentence.holds("Returns the error code of the latest call", () -> {
             CardLoom x = new CardLoom();
-            String[][] calls = {{"loom 9", "2"}, {"loom 2 9", "4"}, {LEAST, "0"}, {"", "1"}, {LEAST + ";mend 0", "3"}, {MOST, "0"}};
+            String[][] calls = {{"loom 9", "2"}, {"loom 2 9", "4"}, {LEAST, "0"}, {"", "1"}, {LEAST + ";mend 0", "3"},
+                    {MOST, "0"}};
             for (String[] call : calls) {
                 errorOf(x, call[0]);
                 Check.same("of " + call[0], x.parseErrorCode(), Integer.parseInt(call[1]));

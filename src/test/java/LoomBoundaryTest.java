@@ -70,7 +70,8 @@ final class LoomBoundaryTest extends Boundary {
         promise(11);
         Sentence.holds("Returns the number of warps of a harness.", () -> {
             CardLoom x = loom("loom 4 9;warp a 1 3 3;warp b 3 1;warp a 3");
-            Check.same("none, some", x.warpsOn(0) + " " + x.warpsOn(1) + " " + x.warpsOn(2) + " " + x.warpsOn(3), "0 2 0 4");
+            Check.same("none, some", x.warpsOn(0) + " " + x.warpsOn(1) + " " + x.warpsOn(2) + " " + x.warpsOn(3),
+                    "0 2 0 4");
         });
         sentence("harness: index of a harness", () -> loom(MOST).warpsOn(0) + " " + loom(MOST).warpsOn(7), "3 3");
         Sentence.holds("Returns the number of warps.", () -> {
@@ -84,7 +85,8 @@ final class LoomBoundaryTest extends Boundary {
     }
 
     private static void brokenWarps() {
-        String first = "loom 2 9;warp a 0" + Given.repeated(" 1", 22) + " 0;card b 0;card b 1;deck 0 1;yarn b 99;strain 1;weave 1";
+        String first = "loom 2 9;warp a 0" + Given.repeated(" 1", 22)
+                + " 0;card b 0;card b 1;deck 0 1;yarn b 99;strain 1;weave 1";
         promise(12);
         Sentence.holds("Tells whether a warp is broken.", () -> {
             CardLoom x = loom("loom 2 9;warp a 0;card b 0;deck 0;yarn b 9;strain 2");
@@ -99,9 +101,11 @@ final class LoomBoundaryTest extends Boundary {
             x.undo();
             Check.same("when that is undone", x.isBroken(0), true);
         });
-        sentence("warp: index of a warp", () -> loom(first).isBroken(0) + " " + loom(first).isBroken(1) + " " + loom(first).isBroken(22)
+        sentence("warp: index of a warp",
+                () -> loom(first).isBroken(0) + " " + loom(first).isBroken(1) + " " + loom(first).isBroken(22)
                 + " " + loom(first).isBroken(23), "true false false true");
-        sentence("Returns true if it is broken.", () -> loom(ONE).isBroken(0) + " " + loom(LEAST).isBroken(0), "true false");
+        sentence("Returns true if it is broken.", () -> loom(ONE).isBroken(0) + " " + loom(LEAST).isBroken(0),
+                "true false");
         needsSetupAndTakes(CardLoom::isBroken);
         noSuchWarp(CardLoom::isBroken);
 
@@ -143,8 +147,10 @@ final class LoomBoundaryTest extends Boundary {
             Check.same("stuck, though the card does not lift it", stuck.isLifted(0), true);
         });
         CardLoom last = loom("loom 8 9;warp a 0;card b 7;deck 0;yarn b 9;weave 1");
-        sentence("harness: index of a harness", () -> last.isLifted(0) + " " + last.isLifted(6) + " " + last.isLifted(7), "false false true");
-        sentence("Returns true if it is lifted.", () -> loom(ONE).isLifted(0) + " " + loom(ONE).isLifted(1), "true false");
+        sentence("harness: index of a harness",
+                () -> last.isLifted(0) + " " + last.isLifted(6) + " " + last.isLifted(7), "false false true");
+        sentence("Returns true if it is lifted.", () -> loom(ONE).isLifted(0) + " " + loom(ONE).isLifted(1),
+                "true false");
         needsSetupAndTakes(CardLoom::isLifted);
         noSuchHarness(CardLoom::isLifted);
     }
@@ -183,7 +189,8 @@ final class LoomBoundaryTest extends Boundary {
             Check.same("oiled", x.isStuck(0), false);
         });
         sentence("harness: index of a harness", () -> loom("loom 8 2;" + turns + "weave 2").isStuck(0) + " "
-                + loom("loom 8 1;" + turns + "weave 1").isStuck(7) + " " + loom("loom 8 1;" + turns + "weave 1").isStuck(6),
+                + loom("loom 8 1;" + turns + "weave 1").isStuck(7) + " "
+                + loom("loom 8 1;" + turns + "weave 1").isStuck(6),
                 "true true false");
         sentence("Returns true if it is stuck.", () -> loom(ONE).isStuck(0) + " " + loom(ONE).isStuck(1), "true false");
         needsSetupAndTakes(CardLoom::isStuck);
@@ -212,10 +219,13 @@ final class LoomBoundaryTest extends Boundary {
             Check.same("as it is now", x.lifts(0, 0) + " " + x.lifts(0, 1) + " " + x.lifts(1, 0) + " " + x.lifts(1, 1),
                     "true true false true");
         });
-        sentence("card: index of a card", () -> loom(MOST).lifts(0, 0) + " " + loom(MOST).lifts(1, 0) + " " + loom(MOST).lifts(11, 0),
+        sentence("card: index of a card",
+                () -> loom(MOST).lifts(0, 0) + " " + loom(MOST).lifts(1, 0) + " " + loom(MOST).lifts(11, 0),
                 "false true true");
-        sentence("harness: index of a harness", () -> loom(MOST).lifts(11, 7) + " " + loom(MOST).lifts(11, 6), "true false");
-        sentence("Returns true if it lifts the harness.", () -> loom(ONE).lifts(0, 0) + " " + loom(ONE).lifts(0, 1), "true false");
+        sentence("harness: index of a harness", () -> loom(MOST).lifts(11, 7) + " " + loom(MOST).lifts(11, 6),
+                "true false");
+        sentence("Returns true if it lifts the harness.", () -> loom(ONE).lifts(0, 0) + " " + loom(ONE).lifts(0, 1),
+                "true false");
         needsSetupAndTakes((x, i) -> x.lifts(i, i));
         Sentence.holds("Throws IndexOutOfBoundsException if there is no such card or harness", () -> {
             takesIndices(LEAST, 0, (x, i) -> x.lifts(i, 0));
@@ -242,7 +252,8 @@ final class LoomBoundaryTest extends Boundary {
         promise(20);
         Sentence.holds("Returns the number of warps whose harness a card lifts.", () -> {
             CardLoom x = loom("loom 3 9;warp a 0 0 1 0;card a 0;card a 1;card a 2;card a 0 1 2;card a 1 2");
-            Check.same("of some harnesses", "" + x.liftedWarps(0) + x.liftedWarps(1) + x.liftedWarps(2) + x.liftedWarps(3)
+            Check.same("of some harnesses",
+                    "" + x.liftedWarps(0) + x.liftedWarps(1) + x.liftedWarps(2) + x.liftedWarps(3)
                     + x.liftedWarps(4), "31041");
             Check.same("of a broken warp and a stuck harness, too", loom(ONE).liftedWarps(0), 1);
         });
@@ -260,8 +271,10 @@ final class LoomBoundaryTest extends Boundary {
             Check.same("some", x.liftDistance(0, 1) + " " + x.liftDistance(0, 2) + " " + x.liftDistance(2, 1), "2 2 2");
             Check.same("of harnesses without warps, too", loom(LEAST + ";card a;card a 1").liftDistance(0, 1), 1);
         });
-        sentence("card: index of a card", () -> loom(MOST).liftDistance(0, 11) + " " + loom(MOST).liftDistance(11, 0), "2 2");
-        sentence("other: index of a card", () -> loom(MOST).liftDistance(10, 0) + " " + loom(MOST).liftDistance(10, 11), "8 6");
+        sentence("card: index of a card", () -> loom(MOST).liftDistance(0, 11) + " " + loom(MOST).liftDistance(11, 0),
+                "2 2");
+        sentence("other: index of a card",
+                () -> loom(MOST).liftDistance(10, 0) + " " + loom(MOST).liftDistance(10, 11), "8 6");
         Sentence.holds("Returns the number of harnesses.", () -> {
             Check.same("of a card and itself", loom(TWO_CARDS).liftDistance(1, 1), 0);
             Check.same("of equal cards", loom(LEAST + ";card a 1;card b 1").liftDistance(0, 1), 0);
@@ -283,9 +296,11 @@ final class LoomBoundaryTest extends Boundary {
             x.punch(4, 2);
             Check.same("as it is now", x.oppositeCard(1), 4);
         });
-        sentence("card: index of a card", () -> loom(MOST).oppositeCard(0) + " " + loom(MOST).oppositeCard(11), "10 -1");
+        sentence("card: index of a card", () -> loom(MOST).oppositeCard(0) + " " + loom(MOST).oppositeCard(11),
+                "10 -1");
         Sentence.holds("Returns index of the card; NONE if there is none.", () -> {
-            Check.same("all and nothing", loom(TWO_CARDS).oppositeCard(0) + " " + loom(TWO_CARDS).oppositeCard(1), "1 0");
+            Check.same("all and nothing", loom(TWO_CARDS).oppositeCard(0) + " " + loom(TWO_CARDS).oppositeCard(1),
+                    "1 0");
             Check.same("one card", loom(LEAST + ";card a").oppositeCard(0), CardLoom.NONE);
             Check.same("one card that lifts all", loom(LEAST + ";card a 0 1").oppositeCard(0), CardLoom.NONE);
             for (int n = 1; n <= 12; n++) {
@@ -296,7 +311,8 @@ final class LoomBoundaryTest extends Boundary {
             }
             Check.same("the last card", loom("loom 8 9;warp a 0;card a 0" + Given.repeated(";card a", 10)
                     + ";card b 1 2 3 4 5 6 7").oppositeCard(0), 11);
-            Check.same("harnesses without warps count", loom("loom 3 9;warp a 0;card a 0;card a 1").oppositeCard(0), CardLoom.NONE);
+            Check.same("harnesses without warps count", loom("loom 3 9;warp a 0;card a 0;card a 1").oppositeCard(0),
+                    CardLoom.NONE);
         });
         needsSetupAndTakes(CardLoom::oppositeCard);
         noSuchCard(CardLoom::oppositeCard);

@@ -28,7 +28,8 @@ final class OutputBoundaryTest extends Boundary {
         Sentence.holds("Returns the number of bytes of the output.", () -> {
             for (int n = 1; n <= 24; n++) {
                 CardLoom x = loom("loom 2 9;warp a" + Given.repeated(" 0", n) + ";card b 0;deck 0;yarn b 99;weave 1");
-                Check.same("of " + n + " warps", x.writeRow(0) + " " + Answers.outputOf(x), n + " output " + "A".repeat(n) + ".");
+                Check.same("of " + n + " warps", x.writeRow(0) + " " + Answers.outputOf(x),
+                        n + " output " + "A".repeat(n) + ".");
             }
         });
         needsSetupAndTakes(CardLoom::writeRow);
@@ -50,11 +51,13 @@ final class OutputBoundaryTest extends Boundary {
             Check.same("the output is not changed by a change", Answers.outputOf(x), "output .......o c.");
             Check.same("as the card is now", Given.card(x, 3), "........ c");
         });
-        sentence("card: index of a card", () -> Given.card(loom(MOST), 0) + " " + Given.card(loom(MOST), 11), "........ a o......o f");
+        sentence("card: index of a card", () -> Given.card(loom(MOST), 0) + " " + Given.card(loom(MOST), 11),
+                "........ a o......o f");
         Sentence.holds("Returns the number of bytes of the output.", () -> {
             for (int n = 2; n <= 8; n++) {
                 CardLoom x = loom("loom " + n + " 9;warp a 0;card a");
-                Check.same("of " + n + " harnesses", x.writeCard(0) + " " + Answers.outputOf(x), n + 2 + " output " + ".".repeat(n) + " a.");
+                Check.same("of " + n + " harnesses", x.writeCard(0) + " " + Answers.outputOf(x),
+                        n + 2 + " output " + ".".repeat(n) + " a.");
             }
         });
         needsSetupAndTakes(CardLoom::writeCard);
@@ -76,13 +79,16 @@ final class OutputBoundaryTest extends Boundary {
             }
             Check.same("the greatest count", written("repeat 020(0)"), "r20(0)");
             String cards = LEAST + Given.repeated(";card a", 12);
-            Check.same("all indices", Given.deck(loom(cards + ";deck 0 1 2 3 4 5 6 7 8 9 10 11")), "0 1 2 3 4 5 6 7 8 9 10 11");
+            Check.same("all indices", Given.deck(loom(cards + ";deck 0 1 2 3 4 5 6 7 8 9 10 11")),
+                    "0 1 2 3 4 5 6 7 8 9 10 11");
             Check.same("counts of one and two digits", written("repeat 9(0)repeat 10(1)"), "r9(0) r10(1)");
             Check.same("brackets in brackets", written("back(mirror(repeat 2(0)))"), "b(m(r2(0)))");
-            Check.same("spaces between neighbours alone", written("back(back(0 1)2 back(0)back(1))0"), "b(b(0 1) 2 b(0) b(1)) 0");
+            Check.same("spaces between neighbours alone", written("back(back(0 1)2 back(0)back(1))0"),
+                    "b(b(0 1) 2 b(0) b(1)) 0");
             Check.same("over several items", written("0;deck back(1);deck 2"), "0 b(1) 2");
             Check.same("as written, not as picks", written("mirror(0 1)repeat 2(0 0)"), "m(0 1) r2(0 0)");
-            Check.same("indices of two digits", Given.deck(loom(LEAST + Given.repeated(";card a", 12) + ";deck 009 10 repeat 10(11)")),
+            Check.same("indices of two digits",
+                    Given.deck(loom(LEAST + Given.repeated(";card a", 12) + ";deck 009 10 repeat 10(11)")),
                     "9 10 r10(11)");
             CardLoom x = loom(CARDS + ";deck 0 1 2");
             x.writeCard(0);
@@ -107,7 +113,8 @@ final class OutputBoundaryTest extends Boundary {
             String parts = "0 back(back(back(0)))" + Given.repeated("1 back(0)", 38);
             CardLoom most = loom(LEAST + ";card a;card b;deck " + parts);
             String due = "0 b(b(b(0)))" + Given.repeated(" 1 b(0)", 38);
-            Check.same("a long one", most.writeDeck() + " " + Answers.outputOf(most), due.length() + " output " + due + ".");
+            Check.same("a long one", most.writeDeck() + " " + Answers.outputOf(most),
+                    due.length() + " output " + due + ".");
         });
         needsSetupAnd(CardLoom::writeDeck);
     }
@@ -122,7 +129,8 @@ final class OutputBoundaryTest extends Boundary {
         Sentence.holds("index: index of the byte", () -> {
             CardLoom x = loom(CARDS + ";deck mirror(0 1)");
             int length = x.writeDeck();
-            Check.same("the first and the last", x.outputByte(0) + " " + x.outputByte(length - 1), (int) 'm' + " " + (int) ')');
+            Check.same("the first and the last", x.outputByte(0) + " " + x.outputByte(length - 1),
+                    (int) 'm' + " " + (int) ')');
         });
         Sentence.holds("Returns the byte.", () -> {
             CardLoom x = loom(ONE);
@@ -131,11 +139,13 @@ final class OutputBoundaryTest extends Boundary {
             x.writeDeck();
             Check.same("a digit", x.outputByte(0), 48);
             x.writeCard(0);
-            Check.same("o, full stop, space, letter", x.outputByte(0) + " " + x.outputByte(1) + " " + x.outputByte(2) + " " + x.outputByte(3),
+            Check.same("o, full stop, space, letter",
+                    x.outputByte(0) + " " + x.outputByte(1) + " " + x.outputByte(2) + " " + x.outputByte(3),
                     "111 46 32 98");
             Check.same("hyphen", loom(LEAST).writeDeck(), 1);
         });
-        Sentence.holds("Throws IndexOutOfBoundsException if there is no such byte; always", OutputBoundaryTest::noSuchByte);
+        Sentence.holds("Throws IndexOutOfBoundsException if there is no such byte; always",
+                OutputBoundaryTest::noSuchByte);
     }
 
     private static void noSuchByte() {

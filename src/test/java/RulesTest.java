@@ -14,7 +14,8 @@ import java.util.TreeMap;
 /** What of LANGUAGE.md can be seen from the compiled class: calls, objects, arrays, divisions and exceptions. */
 final class RulesTest {
     private static final Set<String> LIBRARY = Set.of("java/lang/Object <init> ()V", "java/lang/String length ()I",
-            "java/lang/String charAt (I)C", "java/lang/Integer bitCount (I)I", "java/lang/Math min (II)I", "java/lang/Math max (II)I",
+            "java/lang/String charAt (I)C", "java/lang/Integer bitCount (I)I", "java/lang/Math min (II)I",
+            "java/lang/Math max (II)I",
             "java/lang/Math abs (I)I", "java/util/Arrays fill ([II)V",
             "java/lang/System arraycopy (Ljava/lang/Object;ILjava/lang/Object;II)V");
     private static final String EXCEPTION = "java/lang/(IllegalState|IllegalArgument|IndexOutOfBounds)Exception";
@@ -28,7 +29,8 @@ final class RulesTest {
         for (Class<?> type : classes) {
             Bytecode.methodsOf(type).forEach((name, steps) -> METHODS.put(type.getName() + " " + name, steps));
         }
-        Check.same("the steps are read", METHODS.size() > 150 && METHODS.toString().contains("call CardLoom$Parser parse (I)Z"), true);
+        Check.same("the steps are read", METHODS.size() > 150
+                && METHODS.toString().contains("call CardLoom$Parser parse (I)Z"), true);
         stepsOfMethods();
         depthOfCalls();
         classes.forEach(RulesTest::members);
@@ -59,7 +61,8 @@ final class RulesTest {
                 divisions.append(method).append('\n');
             }
         });
-        Check.same("rule 7: the methods that test an index before they use it", arrays.toString(), "CardLoom at ([II)I\n"
+        Check.same("rule 7: the methods that test an index before they use it", arrays.toString(),
+                "CardLoom at ([II)I\n"
                 + "CardLoom put ([III)V\nCardLoom$History <init> ()V\nCardLoom$History stateAt (I)LCardLoom$State;\n");
         Check.same("rule 7: the methods that divide by a constant, or test the divisor before", divisions.toString(),
                 "CardLoom swapFirst ()I\nCardLoom swapSecond ()I\nCardLoom$Deck cardForRow (I)I\nCardLoom$Deck leastPeriod ()I\n"
@@ -103,9 +106,11 @@ final class RulesTest {
     private static void members(Class<?> type) {
         for (Field field : type.getDeclaredFields()) {
             boolean constant = Modifier.isStatic(field.getModifiers());
-            Check.same("rule 5: " + field, !constant || Modifier.isFinal(field.getModifiers()) && field.getType() == int.class, true);
+            Check.same("rule 5: " + field, !constant || Modifier.isFinal(field.getModifiers())
+                    && field.getType() == int.class, true);
             Class<?> held = field.getType().isArray() ? field.getType().getComponentType() : field.getType();
-            Check.same("rule 3: " + field, held == int.class || held == boolean.class || held.getName().startsWith("CardLoom"), true);
+            Check.same("rule 3: " + field, held == int.class || held == boolean.class
+                    || held.getName().startsWith("CardLoom"), true);
         }
         for (Method method : type.getDeclaredMethods()) {
             Check.same("rule 11: the parameters of " + method, method.getParameterCount() <= 7, true);

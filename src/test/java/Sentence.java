@@ -123,7 +123,8 @@ final class Sentence {
 
     /** A promise's first sentence stands behind the method's head, which is no part of it. */
     private static void split(StringBuilder paragraph, List<String> sentences) {
-        String text = paragraph.toString().trim().replaceAll("^(int|boolean|float|double|CardLoom)\\b[^:]*\\)[^:]*: ", "");
+        String text = paragraph.toString().trim().replaceAll("^(int|boolean|float|double|CardLoom)\\b[^:]*\\)[^:]*: ",
+                "");
         for (String sentence : text.split("(?<=\\.)\\s+")) {
             if (!sentence.isEmpty()) {
                 sentences.add(sentence);

@@ -41,7 +41,8 @@ final class SetupBoundaryTest extends Boundary {
         error(1, CARDS + "yarn a ", "1000");
         error(1, CARDS + "yarn a ", "99999999999999999999");
         valid(CARDS + "deck back(0);deck 1", 2);
-        for (String other : new String[] {"[0]", "{0}", "<0>", "\"0\"", "-0", "+0", ",", ".", "_", "@", "`", "{", "/", ":"}) {
+        for (String other : new String[] {"[0]", "{0}", "<0>", "\"0\"", "-0", "+0", ",", ".", "_", "@", "`", "{", "/",
+                ":"}) {
             error(1, CARDS + "deck back ", other);
             error(1, CARDS + "deck 0 ", other);
         }
@@ -95,7 +96,8 @@ final class SetupBoundaryTest extends Boundary {
     }
 
     private static void leadingZeros() {
-        valid("loom 002 009;warp a 000 001;card a 01;deck 000 repeat 020(00);yarn a 099;weave 001;unweave 01;oil 00", 21);
+        valid("loom 002 009;warp a 000 001;card a 01;deck 000 repeat 020(00);yarn a 099;weave 001;unweave 01;oil 00",
+                21);
         valid("loom 02 09;warp a 00;strain 00;strain 060;motor 01;motor 024;card a;card b;swap 00 001;dye 01 a;invert 001", 0);
         Check.same("the same number", loom("loom 008 200;warp a 007").warpHarness(0), 7);
         error(1, "loom ", "0002 9;warp a 0");
@@ -156,7 +158,8 @@ final class SetupBoundaryTest extends Boundary {
     }
 
     private static void items() {
-        for (String item : new String[] {"yarn a 9", "weave 1", "unweave 1", "swap 0 1", "punch 0 1", "dye 0 c", "oil 0",
+        for (String item : new String[] {"yarn a 9", "weave 1", "unweave 1", "swap 0 1", "punch 0 1", "dye 0 c",
+                "oil 0",
             "invert 1", "strain 5", "motor 5", "mend 0"}) {
             item(item);
         }
@@ -258,7 +261,8 @@ final class SetupBoundaryTest extends Boundary {
         for (int n = 1; n <= 12; n++) {
             String loom = LEAST + Given.repeated(";card a", n) + ";";
             for (String before : new String[] {"deck ", "deck back(", "punch ", "dye ", "invert ", "swap "}) {
-                String after = before.startsWith("punch") ? " 0" : before.startsWith("dye") ? " a" : before.endsWith("(") ? ")" : "";
+                String after = before.startsWith("punch") ? " 0" : before.startsWith("dye")
+                        ? " a" : before.endsWith("(") ? ")" : "";
                 if (!before.startsWith("swap")) {
                     valid(loom + before + 0 + after, before.startsWith("deck") ? 1 : 0);
                     valid(loom + before + (n - 1) + after, before.startsWith("deck") ? 1 : 0);
@@ -275,7 +279,8 @@ final class SetupBoundaryTest extends Boundary {
         error(2, LEAST + ";invert ", "0");
         error(2, "loom 2 9;mend ", "0");
         for (int n = 1; n <= 24; n++) {
-            String loom = "loom 2 9;warp a" + Given.repeated(" 0", n) + ";card a 0;deck 0;yarn a 99;strain 1;weave 1;mend ";
+            String loom = "loom 2 9;warp a" + Given.repeated(" 0", n)
+                    + ";card a 0;deck 0;yarn a 99;strain 1;weave 1;mend ";
             valid(loom + 0, 1);
             valid(loom + (n - 1), 1);
             error(2, loom, "" + n);
@@ -309,7 +314,8 @@ final class SetupBoundaryTest extends Boundary {
         error(2, TWO + "weave ", "61");
         error(2, TWO + "unweave ", "0");
         error(2, TWO + "unweave ", "61");
-        Check.same("the limit 200 of loom is taken whole", loom("loom 2 200;warp a 0;card a 0;card a;deck 0 1;yarn a 99;weave 60")
+        Check.same("the limit 200 of loom is taken whole",
+                loom("loom 2 200;warp a 0;card a 0;card a;deck 0 1;yarn a 99;weave 60")
                 .isStuck(0), false);
     }
 
@@ -319,7 +325,8 @@ final class SetupBoundaryTest extends Boundary {
             CardLoom x = loom("loom 8 9;warp c 7;warp d 0 7 0");
             Check.same("one, then three", x.warpCount() + ":" + x.warpHarness(0) + x.warpHarness(1) + x.warpHarness(2)
                     + x.warpHarness(3), "4:7070");
-            Check.same("their colours", "" + x.warpColour(0) + x.warpColour(1) + x.warpColour(2) + x.warpColour(3), "2333");
+            Check.same("their colours", "" + x.warpColour(0) + x.warpColour(1) + x.warpColour(2) + x.warpColour(3),
+                    "2333");
             Check.same("the same harness again", x.warpsOn(7) + " " + x.warpsOn(0) + " " + x.warpsOn(1), "2 2 0");
             Check.same("24 in one item", loom("loom 2 9;warp a" + Given.repeated(" 1", 24)).warpsOn(1), 24);
             Check.same("24 in 24 items", loom("loom 2 9" + Given.repeated(";warp a 1", 24)).warpsOn(1), 24);
@@ -393,7 +400,8 @@ final class SetupBoundaryTest extends Boundary {
         Sentence.holds("\"invert\" lets a card lift exactly", () -> {
             for (int n = 2; n <= 8; n++) {
                 String all = " 0 1 2 3 4 5 6 7".substring(0, 2 * n);
-                String loom = "loom " + n + " 9;warp a 0;card a;card b" + all + ";card c " + (n - 1) + ";invert 0;invert 1;invert 2";
+                String loom = "loom " + n + " 9;warp a 0;card a;card b" + all + ";card c " + (n - 1)
+                        + ";invert 0;invert 1;invert 2";
                 CardLoom x = loom(loom);
                 Check.same("none", Given.card(x, 0), "o".repeat(n) + " a");
                 Check.same("all", Given.card(x, 1), ".".repeat(n) + " b");

@@ -8,7 +8,8 @@ import java.util.Set;
 
 /** The sentences of the terms' section 7: exceptions, undoing and the constants. */
 final class StateBoundaryTest extends Boundary {
-    private static final Set<String> WITHOUT_SETUP = Set.of("append", "parseSetup", "parseErrorCode", "parseErrorPosition",
+    private static final Set<String> WITHOUT_SETUP = Set.of("append", "parseSetup", "parseErrorCode",
+            "parseErrorPosition",
             "bufferLength", "outputByte", "undoCount", "undo", "restoreState");
 
     /** Two rows; warp 0 is broken, harness 0 is stuck. */
@@ -27,7 +28,8 @@ final class StateBoundaryTest extends Boundary {
         Sentence.holds("RANGE_ERROR = 2", () -> Check.same("RANGE_ERROR", CardLoom.RANGE_ERROR, 2));
         Sentence.holds("CONFLICT_ERROR = 3", () -> Check.same("CONFLICT_ERROR", CardLoom.CONFLICT_ERROR, 3));
         Sentence.holds("LIMIT_ERROR = 4", () -> Check.same("LIMIT_ERROR", CardLoom.LIMIT_ERROR, 4));
-        for (String first : new String[] {"append", "harnessCount", "cardCount", "deckLength", "rowCount", "isWrong", "yarn",
+        for (String first : new String[] {"append", "harnessCount", "cardCount", "deckLength", "rowCount", "isWrong",
+                "yarn",
             "writeRow", "weave"}) {
             Sentence.namesNoBoundary("Ahead of the calls " + first + ",");
         }
@@ -47,8 +49,10 @@ final class StateBoundaryTest extends Boundary {
                 for (int argument : new int[] {0, 1, -1, 99, Integer.MIN_VALUE, Integer.MAX_VALUE}) {
                     Object[] arguments = new Object[method.getParameterCount()];
                     Arrays.fill(arguments, argument);
-                    refused(method.getName() + " " + argument, new CardLoom(), Check.STATE, x -> call(method, x, arguments));
-                    refused(method.getName() + " " + argument, refusedSetups, Check.STATE, x -> call(method, x, arguments));
+                    refused(method.getName() + " " + argument, new CardLoom(), Check.STATE,
+                            x -> call(method, x, arguments));
+                    refused(method.getName() + " " + argument, refusedSetups, Check.STATE,
+                            x -> call(method, x, arguments));
                 }
             }
         }
@@ -104,21 +108,29 @@ final class StateBoundaryTest extends Boundary {
     private static List<Call> callsToRefuse() {
         List<Call> calls = new ArrayList<>();
         for (int bad : new int[] {-1, 99, Integer.MIN_VALUE, Integer.MAX_VALUE}) {
-            calls.addAll(List.of(x -> x.warpHarness(bad), x -> x.warpColour(bad), x -> x.warpsOn(bad), x -> x.isBroken(bad),
-                    x -> x.isLifted(bad), x -> x.wear(bad), x -> x.isStuck(bad), x -> x.lifts(bad, 0), x -> x.lifts(0, bad),
-                    x -> x.cardColour(bad), x -> x.liftedWarps(bad), x -> x.liftDistance(bad, 0), x -> x.liftDistance(0, bad),
+            calls.addAll(List.of(x -> x.warpHarness(bad), x -> x.warpColour(bad), x -> x.warpsOn(bad),
+                    x -> x.isBroken(bad),
+                    x -> x.isLifted(bad), x -> x.wear(bad), x -> x.isStuck(bad), x -> x.lifts(bad, 0),
+                            x -> x.lifts(0, bad),
+                    x -> x.cardColour(bad), x -> x.liftedWarps(bad), x -> x.liftDistance(bad, 0),
+                            x -> x.liftDistance(0, bad),
                     x -> x.oppositeCard(bad), x -> x.deckCard(bad), x -> x.cardUses(bad)));
             calls.addAll(List.of(x -> x.cellColour(bad, 0), x -> x.cellColour(0, bad), x -> x.showsWarp(bad, 0),
                     x -> x.showsWarp(0, bad), x -> x.longestWarpFloat(bad), x -> x.longestWeftFloat(bad),
                     x -> x.cellsOfColour(bad), x -> x.isWrong(bad), x -> x.yarn(bad), x -> x.yarnNeeded(bad),
                     x -> x.writeRow(bad), x -> x.writeCard(bad), x -> x.outputByte(bad)));
-            calls.addAll(List.of(x -> x.weave(bad), x -> x.unweave(bad), x -> x.swapCards(bad, 0), x -> x.swapCards(0, bad),
-                    x -> x.punch(bad, 0), x -> x.punch(0, bad), x -> x.setCardColour(bad, 0), x -> x.setCardColour(0, bad),
-                    x -> x.bringYarn(bad, 1), x -> x.oil(bad), x -> x.mend(bad), x -> x.saveState(bad), x -> x.restoreState(bad)));
+            calls.addAll(List.of(x -> x.weave(bad), x -> x.unweave(bad), x -> x.swapCards(bad, 0),
+                    x -> x.swapCards(0, bad),
+                    x -> x.punch(bad, 0), x -> x.punch(0, bad), x -> x.setCardColour(bad, 0),
+                            x -> x.setCardColour(0, bad),
+                    x -> x.bringYarn(bad, 1), x -> x.oil(bad), x -> x.mend(bad), x -> x.saveState(bad),
+                            x -> x.restoreState(bad)));
         }
         calls.addAll(List.of(x -> x.weave(0), x -> x.weave(61), x -> x.unweave(0), x -> x.unweave(x.rowCount() + 1),
-                x -> x.bringYarn(0, 0), x -> x.bringYarn(0, 1000), x -> x.bringYarn(0, -1), x -> x.mend(1), x -> x.saveState(2)));
-        calls.addAll(List.of(x -> x.parseSetup(-1), x -> x.parseSetup(x.bufferLength() + 1), x -> x.parseSetup(Integer.MAX_VALUE),
+                x -> x.bringYarn(0, 0), x -> x.bringYarn(0, 1000), x -> x.bringYarn(0, -1), x -> x.mend(1),
+                        x -> x.saveState(2)));
+        calls.addAll(List.of(x -> x.parseSetup(-1), x -> x.parseSetup(x.bufferLength() + 1),
+                x -> x.parseSetup(Integer.MAX_VALUE),
                 x -> x.parseSetup(Integer.MIN_VALUE)));
         return calls;
     }
@@ -178,8 +190,10 @@ final class StateBoundaryTest extends Boundary {
     // ---- changes
 
     private static void everyChangeCounts() {
-        Call[] changes = {x -> x.weave(1), x -> x.weave(60), x -> x.unweave(1), x -> x.unweave(2), x -> x.swapCards(0, 1),
-            x -> x.punch(0, 0), x -> x.setCardColour(0, 5), x -> x.bringYarn(0, 1), x -> x.bringYarn(5, 999), x -> x.oil(0),
+        Call[] changes = {x -> x.weave(1), x -> x.weave(60), x -> x.unweave(1), x -> x.unweave(2),
+                x -> x.swapCards(0, 1),
+            x -> x.punch(0, 0), x -> x.setCardColour(0, 5), x -> x.bringYarn(0, 1), x -> x.bringYarn(5, 999),
+                    x -> x.oil(0),
             x -> x.mend(0)};
         for (int i = 0; i < changes.length; i++) {
             undone("change " + i, loom(BUSY), changes[i], true);

@@ -91,12 +91,14 @@ final class TermsBoundaryTest extends Boundary {
                 CardLoom x = loom(setup);
                 Check.same("harness " + i, x.isLifted(i) + " " + x.wear(i) + " " + x.isStuck(i), "false 0 false");
                 CardLoom y = afterWornLooms(setup);
-                Check.same("of a later setup " + i, y.isLifted(i) + " " + y.wear(i) + " " + y.isStuck(i), "false 0 false");
+                Check.same("of a later setup " + i, y.isLifted(i) + " " + y.wear(i) + " " + y.isStuck(i),
+                        "false 0 false");
             }
         }
         CardLoom worn = loom(WORN);
         for (int i = 0; i < 8; i++) {
-            Check.same("the other way " + i, worn.isLifted(i) + " " + worn.wear(i) + " " + worn.isStuck(i), "true 1 true");
+            Check.same("the other way " + i, worn.isLifted(i) + " " + worn.wear(i) + " " + worn.isStuck(i),
+                    "true 1 true");
         }
     }
 
@@ -212,7 +214,8 @@ final class TermsBoundaryTest extends Boundary {
             Check.same("one part", picks("0"), "0");
             Check.same("neighbouring parts of each kind", picks("0 repeat 2(1)mirror(2)back(0)"), "0 1 1 2 0");
         });
-        Sentence.holds("A part is a card, or a part with brackets, which contains at least one part.", TermsBoundaryTest::parts);
+        Sentence.holds("A part is a card, or a part with brackets, which contains at least one part.",
+                TermsBoundaryTest::parts);
         Sentence.holds("Each part has picks.", () -> {
             for (String part : new String[] {"2", "repeat 1(2)", "mirror(2)", "back(2)", "repeat 1(mirror(back(2)))"}) {
                 Check.same("the least picks of " + part, picks(part), "2");
@@ -240,7 +243,8 @@ final class TermsBoundaryTest extends Boundary {
             Check.same("of three", picks("mirror(0 1 2)"), "0 1 2 1 0");
             Check.same("in a mirror", picks("mirror(mirror(0 1)2)"), "0 1 0 2 0 1 0");
             String fifty = Given.repeated(" 0 1 2 1 0", 9) + " 0 1 2 1 1";
-            Check.same("of fifty", picks("mirror(" + fifty + ")"), (fifty + " 1 2 1 0" + Given.repeated(" 0 1 2 1 0", 9)).trim());
+            Check.same("of fifty", picks("mirror(" + fifty + ")"),
+                    (fifty + " 1 2 1 0" + Given.repeated(" 0 1 2 1 0", 9)).trim());
         });
         Sentence.holds("The picks of a reversed part are", () -> {
             Check.same("of one", picks("back(0)"), "0");
@@ -325,7 +329,8 @@ final class TermsBoundaryTest extends Boundary {
         CardLoom one = loom(LEAST + ";card b;deck 0;yarn b 99;weave 59");
         Check.same("of one pick", one.nextCard(), 0);
         CardLoom sixty = loom(LEAST + ";card b;card c;deck repeat 20(0 0)repeat 19(1)0;yarn b 99;yarn c 99;weave 60");
-        Check.same("of sixty picks and rows", sixty.deckLength() + " " + sixty.nextCard() + " " + Given.row(sixty, 59), "60 0 b");
+        Check.same("of sixty picks and rows", sixty.deckLength() + " " + sixty.nextCard() + " " + Given.row(sixty, 59),
+                "60 0 b");
         CardLoom hundred = loom(LEAST + ";card b;card c;deck repeat 20(0 0 0)1 repeat 13(0 0 0);yarn b 99");
         hundred.weave(60);
         Check.same("of a hundred picks", hundred.deckLength() + " " + hundred.nextCard(), "100 1");
@@ -368,7 +373,8 @@ final class TermsBoundaryTest extends Boundary {
 
     private static void yarnDecreases() {
         for (int n = 1; n <= 24; n++) {
-            CardLoom x = loom("loom 2 9;warp a" + Given.repeated(" 0", n) + ";card b 0;deck 0;yarn b " + 2 * n + ";yarn a 9");
+            CardLoom x = loom("loom 2 9;warp a" + Given.repeated(" 0", n) + ";card b 0;deck 0;yarn b " + 2 * n
+                    + ";yarn a 9");
             x.weave(1);
             Check.same("for " + n + " warps", x.yarn(1), n);
             x.weave(1);
@@ -388,7 +394,8 @@ final class TermsBoundaryTest extends Boundary {
     private static void harnessesMove() {
         String cards = "warp a 0 1;card b 0;card b 0 1;card b;deck 0 1 2 2;yarn b 999";
         CardLoom x = loom("loom 2 3;" + cards);
-        String[] due = {"up 1,down 0", "up 1,up 1", "down 2,down 2", "down 2,down 2", "up 3 stuck,down 2", "up 3 stuck,up 3 stuck",
+        String[] due = {"up 1,down 0", "up 1,up 1", "down 2,down 2", "down 2,down 2", "up 3 stuck,down 2",
+                "up 3 stuck,up 3 stuck",
             "up 3 stuck,up 3 stuck"};
         for (int pick = 0; pick < due.length; pick++) {
             x.weave(1);
@@ -403,7 +410,8 @@ final class TermsBoundaryTest extends Boundary {
         down.weave(5);
         Check.same("stuck when it was lowered", harness(down, 0), "down 2 stuck");
         CardLoom last = loom("loom 8 1;warp a 7;card b 7;deck 0;yarn b 9;weave 1");
-        Check.same("the last harness alone", harness(last, 7) + "," + harness(last, 6) + "," + harness(last, 0), "up 1 stuck,down 0,down 0");
+        Check.same("the last harness alone", harness(last, 7) + "," + harness(last, 6) + "," + harness(last, 0),
+                "up 1 stuck,down 0,down 0");
 
         CardLoom most = loom("loom 2 200;warp a 0;card b 0;card b;deck 0 1;yarn b 60");
         for (int n = 0; n < 3; n++) {
@@ -428,7 +436,8 @@ final class TermsBoundaryTest extends Boundary {
         CardLoom stuck = loom("loom 2 1;warp a 0 1;card b 0;card b 1;deck 0 1;yarn b 99;weave 2");
         Check.same("stuck up, though the card does not lift it", Given.row(stuck, 1), "AA");
         CardLoom low = loom("loom 2 2;warp a 0 1;card b 0;card b 1;deck 0 1;yarn b 99;weave 3");
-        Check.same("stuck down, though the card lifts it", Given.row(low, 0) + Given.row(low, 1) + Given.row(low, 2), "AbbAbb");
+        Check.same("stuck down, though the card lifts it", Given.row(low, 0) + Given.row(low, 1) + Given.row(low, 2),
+                "AbbAbb");
         CardLoom same = loom("loom 2 9;warp b 0 1;card b 0;deck 0;yarn b 9;weave 1");
         Check.same("of the same colour", Given.row(same, 0), "Bb");
         CardLoom now = loom("loom 2 9;warp a 0 1;card b 0;deck 0;yarn e 9;invert 0;dye 0 e;weave 1");
@@ -463,7 +472,8 @@ final class TermsBoundaryTest extends Boundary {
         Check.same("neighbouring rows", broken(loom(turns + "1 0 0;yarn b 99;strain 2;weave 3")), "x.");
         Check.same("the last rows alone", broken(loom(turns + "0 2 1;yarn b 99;strain 2;weave 1;weave 2")), "xx");
         Check.same("earlier rows do not count", broken(loom(turns + "0 0 1;yarn b 99;weave 2;strain 2;weave 1")), "..");
-        Check.same("rows before the limit was set count", broken(loom(turns + "0 0 0;yarn b 99;weave 1;strain 2;weave 1")), "x.");
+        Check.same("rows before the limit was set count",
+                broken(loom(turns + "0 0 0;yarn b 99;weave 1;strain 2;weave 1")), "x.");
         CardLoom row = loom(turns + "0;yarn b 99;strain 2;weave 3");
         Check.same("it breaks behind the row", Given.row(row, 1) + " " + Given.row(row, 2), "Ab bb");
 
@@ -483,7 +493,8 @@ final class TermsBoundaryTest extends Boundary {
         Check.same("three rows again", broken(x), "x.");
         CardLoom stuck = loom("loom 2 1;warp a 0;card b 0;card b;deck 0 1 1;yarn b 99;strain 3;weave 3");
         Check.same("of a stuck harness, too", broken(stuck), "x");
-        CardLoom last = loom("loom 2 9;warp a" + Given.repeated(" 0", 23) + " 1;card b 1;deck 0;yarn b 99;strain 1;weave 1");
+        CardLoom last = loom("loom 2 9;warp a" + Given.repeated(" 0", 23)
+                + " 1;card b 1;deck 0;yarn b 99;strain 1;weave 1");
         Check.same("the last of 24 warps", broken(last), Given.repeated(".", 23) + "x");
     }
 
@@ -491,8 +502,10 @@ final class TermsBoundaryTest extends Boundary {
         CardLoom x = loom("loom 2 2;warp a 0 1;card b 0;card c 1;deck 0 1;yarn b 99;yarn c 99;strain 4;weave 2");
         String rows = Given.row(x, 0) + " " + Given.row(x, 1);
         Check.same("at first", rows, "Ab cA");
-        Call[] changes = {y -> y.weave(9), y -> y.oil(0), y -> y.swapCards(0, 1), y -> y.punch(0, 0), y -> y.punch(1, 1),
-            y -> y.setCardColour(0, 5), y -> y.setCardColour(1, 5), y -> y.bringYarn(5, 9), y -> y.weave(9), y -> y.oil(1),
+        Call[] changes = {y -> y.weave(9), y -> y.oil(0), y -> y.swapCards(0, 1), y -> y.punch(0, 0),
+                y -> y.punch(1, 1),
+            y -> y.setCardColour(0, 5), y -> y.setCardColour(1, 5), y -> y.bringYarn(5, 9), y -> y.weave(9),
+                    y -> y.oil(1),
             y -> y.unweave(y.rowCount() - 2), y -> y.weave(9), y -> y.undo(), y -> y.saveState(0)};
         for (int i = 0; i < changes.length; i++) {
             changes[i].on(x);
@@ -507,7 +520,8 @@ final class TermsBoundaryTest extends Boundary {
 
     private static void yarnIncreases() {
         for (int n = 1; n <= 24; n++) {
-            CardLoom x = loom("loom 2 9;warp a" + Given.repeated(" 0", n) + ";card b 0;card c;deck 0 1;yarn b 99;yarn c 99;weave 3");
+            CardLoom x = loom("loom 2 9;warp a" + Given.repeated(" 0", n)
+                    + ";card b 0;card c;deck 0 1;yarn b 99;yarn c 99;weave 3");
             x.unweave(1);
             Check.same("the last row of " + n + " warps", x.yarn(1) + " " + x.yarn(2), 99 - n + " " + (99 - n));
             x.unweave(2);
@@ -537,7 +551,8 @@ final class TermsBoundaryTest extends Boundary {
             for (int n = 1; n <= 12; n++) {
                 String none = "loom 2 9;warp b 0" + Given.repeated(";card c 0", n) + ";yarn a 9;deck " + (n - 1);
                 CardLoom x = loom(none + ";invert " + (n - 1) + ";dye " + (n - 1) + " a;weave 1");
-                Check.same("no card of " + n + " explains it, and one that is not there is none of them", swap(x), "-1 -1");
+                Check.same("no card of " + n + " explains it, and one that is not there is none of them", swap(x),
+                        "-1 -1");
             }
             Check.same("no cards", swap(loom(LEAST)), "-1 -1");
         });
@@ -555,7 +570,8 @@ final class TermsBoundaryTest extends Boundary {
         String cards = "loom 2 99;warp a 0 1;card b 0;card c 1;card b;deck 0 1 2;yarn b 999;yarn c 999;";
         Check.same("over the deck's end", wrong(loom(cards + "weave 60")), Given.repeated(".", 60));
         Check.same("at the last pick", wrong(loom(cards + "weave 2;punch 2 0;weave 1;punch 2 0;weave 3")), "..x...");
-        Check.same("at the first pick again", wrong(loom(cards + "weave 3;punch 0 1;weave 1;punch 0 1;weave 2")), "...x..");
+        Check.same("at the first pick again", wrong(loom(cards + "weave 3;punch 0 1;weave 1;punch 0 1;weave 2")),
+                "...x..");
         Check.same("at the last row", wrong(loom(cards + "weave 59;invert 2;weave 1")), Given.repeated(".", 59) + "x");
         Check.same("never stuck", wrong(loom(cards.replace("loom 2 99", "loom 2 1") + "weave 4")), ".xxx");
         Check.same("never broken", wrong(loom(cards + "strain 1;weave 6")), "...xx.");
@@ -574,8 +590,10 @@ final class TermsBoundaryTest extends Boundary {
         String hidden = cards.replace("card c 0", "card c 0 1");
         Check.same("a weft that no cell shows", wrong(loom(hidden + "dye 0 d;weave 1")), ".");
         Check.same("a colour for another warp alone", wrong(loom(hidden + "dye 0 b;punch 0 1;weave 1")), "x");
-        Check.same("equal colours, but not what is shown", wrong(loom(cards.replace("card c", "card a") + "punch 0 0;weave 1")), "x");
-        Check.same("a harness without warps", wrong(loom("loom 3 9;warp a 0;card b 0;deck 0;yarn b 9;punch 0 2;weave 1")), ".");
+        Check.same("equal colours, but not what is shown",
+                wrong(loom(cards.replace("card c", "card a") + "punch 0 0;weave 1")), "x");
+        Check.same("a harness without warps",
+                wrong(loom("loom 3 9;warp a 0;card b 0;deck 0;yarn b 9;punch 0 2;weave 1")), ".");
         String last = "loom 2 9;warp a" + Given.repeated(" 0", 23) + " 1;card b 0;deck 0;yarn b 24;";
         Check.same("the last of 24 cells", wrong(loom(last + "punch 0 1;weave 1")), "x");
         Check.same("none of 24 cells", wrong(loom(last + "weave 1")), ".");
@@ -590,7 +608,8 @@ final class TermsBoundaryTest extends Boundary {
         String many = "loom 4 99;warp a 0 1 2 3";
         StringBuilder cards = new StringBuilder(many);
         for (int card = 0; card < 12; card++) {
-            cards.append(";card ").append((char) ('b' + card % 4)).append(' ').append(card % 4).append(card >= 4 && card < 8 ? " 0" : "");
+            cards.append(";card ").append((char) ('b' + card % 4)).append(' ').append(card % 4).append(card >= 4
+                    && card < 8 ? " 0" : "");
         }
         // Cards 0 to 3 are those of 8 to 11; card 4 would list 0 twice.
         String setup = cards.toString().replace(" 0 0", " 0 1") + ";yarn b 999;yarn c 999;yarn d 999;yarn e 999;deck ";
@@ -599,13 +618,16 @@ final class TermsBoundaryTest extends Boundary {
         Check.same("given the other way round", swap(loom(setup + "4 7;swap 7 4;weave 2")), "4 7");
         Check.same("the least second card of two alike", swap(loom(setup + "0;swap 0 11;weave 1")), "0 3");
         Check.same("the least first card of two alike", swap(loom(setup + "10;swap 10 3;weave 1")), "3 10");
-        Check.same("a lesser first card, though it has a greater second one", swap(loom(setup + "8;swap 8 3;weave 1")), "3 8");
+        Check.same("a lesser first card, though it has a greater second one", swap(loom(setup + "8;swap 8 3;weave 1")),
+                "3 8");
         Check.same("each row, right ones too", swap(loom(setup + "0 1;weave 2;swap 0 1;weave 1")), "-1 -1");
-        Check.same("one row of sixty fits no more", swap(loom(setup + "0 1;swap 0 1;weave 59;swap 0 1;weave 1")), "-1 -1");
+        Check.same("one row of sixty fits no more", swap(loom(setup + "0 1;swap 0 1;weave 59;swap 0 1;weave 1")),
+                "-1 -1");
         Check.same("all of sixty rows", swap(loom(setup + "0 1;swap 0 1;weave 60")), "0 1");
         Check.same("rows of a third card stay", swap(loom(setup + "0 2 1;swap 0 1;weave 3")), "0 1");
         Check.same("no row is wrong, though a pair would fit", swap(loom(setup + "0 8;weave 2")), "-1 -1");
-        Check.same("the designs, not the cards now", swap(loom(setup + "0 1;swap 0 1;weave 2;dye 0 a;dye 1 a;invert 1")), "0 1");
+        Check.same("the designs, not the cards now",
+                swap(loom(setup + "0 1;swap 0 1;weave 2;dye 0 a;dye 1 a;invert 1")), "0 1");
         String alike = "loom 2 9;warp a 0;card a 0;card a;deck 0;yarn a 9;swap 0 1;weave 1";
         Check.same("equal in showing the weft, too", swap(loom(alike)), "0 1");
         String stuck = "loom 2 1;warp a 0 1;card b 0;card c 0 1;card c 1;deck 0 2;yarn b 99;yarn c 99;weave 2";

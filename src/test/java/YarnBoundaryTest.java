@@ -51,7 +51,8 @@ final class YarnBoundaryTest extends Boundary {
             Check.same("by the colours now", needed(deck + ";weave 3;dye 2 b"), "3 0 0");
             Check.same("yarn that is there does not count", needed(deck + ";yarn b 999"), "3 6 3");
         });
-        sentence("colour: number of a colour, 0 to 5", () -> loom(LEAST + ";card a;card f;deck 0 1 1").yarnNeeded(0) + " "
+        sentence("colour: number of a colour, 0 to 5",
+                () -> loom(LEAST + ";card a;card f;deck 0 1 1").yarnNeeded(0) + " "
                 + loom(LEAST + ";card a;card f;deck 0 1 1").yarnNeeded(5), "1 2");
         Sentence.holds("Returns the amount; 0 without picks.", () -> {
             for (int colour = 0; colour < 6; colour++) {
@@ -60,8 +61,11 @@ final class YarnBoundaryTest extends Boundary {
             }
             Check.same("one pick of one warp", loom(ONE).yarnNeeded(1), 1);
             Check.same("another colour", loom(ONE).yarnNeeded(0), 0);
-            Check.same("the most", loom("loom 2 9;warp a" + Given.repeated(" 0", 24) + ";card a;deck repeat 20(0 0 0 0 0)").yarnNeeded(0), 2400);
-            Check.same("of a hundred picks with sixty rows", loom(LEAST + ";card a;yarn a 60;deck repeat 20(0 0 0 0 0);weave 60")
+            Check.same("the most",
+                    loom("loom 2 9;warp a" + Given.repeated(" 0", 24)
+                    + ";card a;deck repeat 20(0 0 0 0 0)").yarnNeeded(0), 2400);
+            Check.same("of a hundred picks with sixty rows",
+                    loom(LEAST + ";card a;yarn a 60;deck repeat 20(0 0 0 0 0);weave 60")
                     .yarnNeeded(0), 40);
         });
         needsSetupAndTakes(CardLoom::yarnNeeded);
@@ -75,7 +79,8 @@ final class YarnBoundaryTest extends Boundary {
 
     private static void nextPick() {
         promise(45);
-        sentence("Returns the card of the next pick.", () -> loom(CARDS + "deck 2 1 0;yarn b 9;yarn c 9;yarn d 9;weave 1").nextCard(), 1);
+        sentence("Returns the card of the next pick.",
+                () -> loom(CARDS + "deck 2 1 0;yarn b 9;yarn c 9;yarn d 9;weave 1").nextCard(), 1);
         Sentence.holds("Returns index of the card; NONE without picks.", () -> {
             Check.same("no picks", loom(CARDS + "yarn b 9").nextCard(), CardLoom.NONE);
             Check.same("no cards", loom(LEAST).nextCard(), CardLoom.NONE);
@@ -167,11 +172,14 @@ final class YarnBoundaryTest extends Boundary {
         promise(48);
         Sentence.holds("Predicts the number of picks after which", () -> {
             Check.same("the first of two", untilStuck("loom 2 3;warp a 0;card b 0;card b 1;deck 0 1;yarn b 99"), 3);
-            Check.same("the other one", untilStuck("loom 2 3;warp a 0;card b 0;card b 1;deck 0 1;yarn b 99;weave 3"), 1);
+            Check.same("the other one", untilStuck("loom 2 3;warp a 0;card b 0;card b 1;deck 0 1;yarn b 99;weave 3"),
+                    1);
             Check.same("two at once", untilStuck("loom 2 1;warp a 0;card b 0 1;deck 0;yarn b 99"), 1);
-            Check.same("one that is stuck does not count", untilStuck("loom 2 1;warp a 0;card b 0;card b 0 1;deck 0 0 1;yarn b 99;weave 1"), 2);
+            Check.same("one that is stuck does not count",
+                    untilStuck("loom 2 1;warp a 0;card b 0;card b 0 1;deck 0 0 1;yarn b 99;weave 1"), 2);
             Check.same("oiled, it counts again", untilStuck("loom 2 2;" + turns + "99;weave 2;oil 0"), 2);
-            Check.same("a harness without warps", untilStuck("loom 8 1;warp a 0;card b;card b 7;deck 0 0 1;yarn b 99"), 3);
+            Check.same("a harness without warps", untilStuck("loom 8 1;warp a 0;card b;card b 7;deck 0 0 1;yarn b 99"),
+                    3);
         });
         Sentence.holds("Returns the number of picks, 1 to 60; NONE if", () -> {
             Check.same("the next pick", untilStuck("loom 2 1;" + turns + "1"), 1);
@@ -182,7 +190,8 @@ final class YarnBoundaryTest extends Boundary {
             Check.same("the last row", untilStuck("loom 2 60;" + turns + "99;weave 59"), 1);
             Check.same("sixty rows", untilStuck("loom 2 61;" + turns + "99;weave 60"), CardLoom.NONE);
             Check.same("nothing moves", untilStuck("loom 2 1;warp a 0;card b;deck 0;yarn b 99"), CardLoom.NONE);
-            Check.same("all are stuck", untilStuck("loom 2 1;warp a 0;card b 0 1;deck 0;yarn b 99;weave 1"), CardLoom.NONE);
+            Check.same("all are stuck", untilStuck("loom 2 1;warp a 0;card b 0 1;deck 0;yarn b 99;weave 1"),
+                    CardLoom.NONE);
             Check.same("no picks", untilStuck(LEAST), CardLoom.NONE);
         });
         needsSetupAnd(CardLoom::picksUntilStuck);
@@ -193,8 +202,10 @@ final class YarnBoundaryTest extends Boundary {
         sentence("Checks invariants.", () -> loom(Given.SAMPLE + ";weave 9").imbalance(), 0);
         Sentence.holds("Returns the difference, without its sign, between", () -> {
             String cards = CARDS + "deck 0 1 2;yarn b 99;yarn c 99;yarn d 99;";
-            String[] items = {"weave 1", "weave 9;unweave 9", "weave 9;unweave 1", "swap 0 1;weave 3", "punch 0 0;weave 3", "dye 0 c;weave 3",
-                "invert 0;weave 3", "invert 0;weave 3;invert 0", "strain 1;weave 9", "strain 1;weave 3;mend 0", "motor 1;weave 1",
+            String[] items = {"weave 1", "weave 9;unweave 9", "weave 9;unweave 1", "swap 0 1;weave 3",
+                    "punch 0 0;weave 3", "dye 0 c;weave 3",
+                "invert 0;weave 3", "invert 0;weave 3;invert 0", "strain 1;weave 9", "strain 1;weave 3;mend 0",
+                "motor 1;weave 1",
                 "swap 0 1;swap 0 1;weave 9", "weave 3;dye 0 d;unweave 3;weave 3", "yarn a 999;weave 20"};
             for (String item : items) {
                 Check.same("after " + item, loom(cards + item).imbalance(), 0);
@@ -202,8 +213,10 @@ final class YarnBoundaryTest extends Boundary {
             Check.same("the least", loom(LEAST).imbalance(), 0);
             Check.same("one", loom(ONE).imbalance(), 0);
             Check.same("the most", loom(MOST).imbalance(), 0);
-            Check.same("stuck, though oiled later", loom(cards.replace("loom 2 200", "loom 2 1") + "weave 6;oil 0;oil 1").imbalance(), 0);
-            Check.same("a wrong row without such a change", loom(cards.replace("loom 2 200", "loom 2 1") + "weave 6").wrongCount(), 2);
+            Check.same("stuck, though oiled later",
+                    loom(cards.replace("loom 2 200", "loom 2 1") + "weave 6;oil 0;oil 1").imbalance(), 0);
+            Check.same("a wrong row without such a change",
+                    loom(cards.replace("loom 2 200", "loom 2 1") + "weave 6").wrongCount(), 2);
             afterCalls();
         });
         needsSetupAnd(CardLoom::imbalance);
@@ -211,9 +224,12 @@ final class YarnBoundaryTest extends Boundary {
 
     private static void afterCalls() {
         CardLoom x = loom(CARDS + "deck 0 1 2;yarn b 99;yarn c 99;yarn d 99");
-        Call[] calls = {y -> y.weave(9), y -> y.saveState(0), y -> y.unweave(3), y -> y.bringYarn(5, 999), y -> y.undo(), y -> y.undo(),
-            y -> y.punch(0, 0), y -> y.saveState(1), y -> y.weave(60), y -> y.undo(), y -> y.undo(), y -> y.weave(60), y -> y.restoreState(1),
-            y -> y.weave(60), y -> y.restoreState(0), y -> y.swapCards(1, 2), y -> y.setCardColour(0, 0), y -> y.weave(60), y -> y.unweave(9)};
+        Call[] calls = {y -> y.weave(9), y -> y.saveState(0), y -> y.unweave(3), y -> y.bringYarn(5, 999),
+                y -> y.undo(), y -> y.undo(),
+            y -> y.punch(0, 0), y -> y.saveState(1), y -> y.weave(60), y -> y.undo(), y -> y.undo(), y -> y.weave(60),
+                    y -> y.restoreState(1),
+            y -> y.weave(60), y -> y.restoreState(0), y -> y.swapCards(1, 2), y -> y.setCardColour(0, 0),
+                    y -> y.weave(60), y -> y.unweave(9)};
         for (int i = 0; i < calls.length; i++) {
             calls[i].on(x);
             Check.same("after call " + i, x.imbalance(), 0);
