@@ -248,7 +248,9 @@ final class ClothBoundaryTest extends Boundary {
             x.weave(2);
             Check.same("right ones, a wrong weft, one that is hidden",
                     x.isWrong(0) + " " + x.isWrong(1) + " " + x.isWrong(2) + " " + x.isWrong(3),
-                            "false false true false");
+                    "false false true false");
+            String alike = "loom 2 9;warp a 0;card a 0;deck 0;yarn a 9;punch 0 0;weave 1";
+            Check.same("equal colours, but the weft in the warp's place", loom(alike).isWrong(0), true);
         });
         sentence("row: index of a row of the cloth",
                 () -> loom(CARDS + "0;dye 0 c;weave 1;dye 0 b;weave 58;invert 0;weave 1").isWrong(0)

@@ -152,8 +152,12 @@ final class InputBoundaryTest extends Boundary {
         Given.append(x, full);
         Check.same("all but the last of them", x.parseSetup(499) + " " + x.warpCount(), "0 1");
         for (String next : new String[] {LEAST, ONE, MOST, Given.SAMPLE, LEAST, MOST, ONE, LEAST, LEAST}) {
+            Check.fails("a setup that ends in brackets", Check.ARGUMENT,
+                    () -> Given.parse(x, Given.SAMPLE + ";strain 1;motor 1;deck 0 back(1 mirror(0 repeat 2(1"));
             Given.parse(x, next);
-            Check.same("it replaces the loom: " + next, Answers.of(x), Answers.of(loom(next)));
+            CardLoom alone = loom(next);
+            Check.same("the parts of its deck: " + next, Given.deck(x), Given.deck(alone));
+            Check.same("it replaces the loom: " + next, Answers.of(x), Answers.of(alone));
             x.bringYarn(0, 999);
             x.weave(60);
         }
